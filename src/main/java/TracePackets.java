@@ -9,6 +9,8 @@ public final class TracePackets {
     public static final int NONE = -1;
 
     private static final int ABSENT = -2;
+    /** Above every SUM and every number of STEPS or losses. */
+    private static final int FAR_ABOVE = 1000000;
 
     private static final int SORTS = 4;
     private static final int CODES = 0;
@@ -164,7 +166,8 @@ public final class TracePackets {
         if (two == null || !follow(code, drive)) {
             return NONE;
         }
-        otherPath.follow(state.codeOf(code), two);
+        otherPath.driveBy(path.code, two);
+        otherPath.go();
         int both = Math.min(path.steps, otherPath.steps);
         for (int k = 0; k < both; k++) {
             if (path.at(k) != otherPath.at(k)) {
@@ -242,6 +245,7 @@ public final class TracePackets {
         if (lost == null && loss != NONE || !follow(code, drive)) {
             return NONE;
         }
+        encode();
         rebuild(lost);
         return what == 2 ? walk.size - pieces.size : pieces.tell(what);
     }
@@ -251,6 +255,7 @@ public final class TracePackets {
         if (lost == null && loss != NONE || !follow(code, drive)) {
             return NONE;
         }
+        encode();
         rebuild(lost);
         long set = 0L;
         for (int j = 0; j < path.steps; j++) {
@@ -331,7 +336,8 @@ public final class TracePackets {
         if (told == null || n < 0 || n > CHOICES) {
             return NONE;
         }
-        path.draw(told, seed, n);
+        path.drawBy(told, seed, n);
+        path.go();
         if (what == 10) {
             return path.steps == 0 ? NONE : path.at(path.steps - 1);
         }
@@ -404,7 +410,8 @@ public final class TracePackets {
         if (told == null || choices == null) {
             return false;
         }
-        path.follow(told, choices);
+        path.driveBy(told, choices);
+        path.go();
         return true;
     }
 
@@ -416,9 +423,8 @@ public final class TracePackets {
         }
     }
 
-    /** Rebuilds the RUN that was made from its PACKETS but those of a LOSS (null: none is lost). */
+    /** Rebuilds the RUN that was encoded from its PACKETS but those of a LOSS (null: none is lost). */
     private void rebuild(Row lost) {
-        encode();
         walk.go(path.code, encoder.packets);
         pieces.sift(walk, lost, NONE);
     }
@@ -484,7 +490,7 @@ public final class TracePackets {
             return NONE;
         }
         int best = 1;
-        int least = Integer.MAX_VALUE;
+        int least = FAR_ABOVE;
         for (int bits = 1; bits <= MOST_BITS; bits++) {
             encoder.encode(told, path, bits, told.rule(DEEP));
             int sum = encoder.packets.sum();
@@ -499,7 +505,7 @@ public final class TracePackets {
     private int worst() {
         walk.go(path.code, encoder.packets);
         int best = NONE;
-        int fewest = Integer.MAX_VALUE;
+        int fewest = FAR_ABOVE;
         for (int k = 0; k < encoder.packets.size; k++) {
             pieces.sift(walk, null, k);
             if (pieces.size < fewest) {
@@ -1098,21 +1104,19 @@ public final class TracePackets {
         private int used;
         private int returns;
 
-        void follow(Code told, Row choices) {
+        void driveBy(Code told, Row choices) {
             code = told;
             drive = choices;
-            go();
         }
 
-        void draw(Code told, int from, int choices) {
+        void drawBy(Code told, int from, int choices) {
             code = told;
             drive = null;
             seed = from;
             most = choices;
-            go();
         }
 
-        private void go() {
+        void go() {
             steps = 0;
             depth = 0;
             deepest = 0;
@@ -1862,7 +1866,7 @@ public final class TracePackets {
         /** ASK: NONE if nothing fits, or there are no INSTRUCTIONS. */
         int ask(Code code) {
             int best = NONE;
-            int least = Integer.MAX_VALUE;
+            int least = FAR_ABOVE;
             for (int a = 0; a < ADDRESSES && size > 0 && code != null && code.has(a); a++) {
                 int greatest = greatestGroup(a);
                 if (greatest < least) {

@@ -121,6 +121,12 @@ public final class FormTest {
             "for (;;)", "java."}) {
             dueTrue("no " + sign, !bare.contains(sign));
         }
+        Matcher library = Pattern.compile("\\b(String|StringBuilder|Integer|Long|Math|System|Arrays|Object|Boolean|Byte|"
+                + "Character|Double|Short)\\b[.\\w]*").matcher(bare);
+        Set<String> allowed = Set.of("String", "Math.max", "Math.min", "Long.bitCount", "System.arraycopy");
+        while (library.find()) {
+            dueTrue("of the library: " + library.group(), allowed.contains(library.group()));
+        }
         methodLengths(bare);
     }
 

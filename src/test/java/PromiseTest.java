@@ -35,6 +35,7 @@ public final class PromiseTest {
         packet();
         packetRules();
         packetOverflow();
+        packetDrops();
         sent();
         rebuilt();
         rebuiltPieces();
@@ -214,9 +215,16 @@ public final class PromiseTest {
         dueFault(CODE, "plain\t;", 1, 5);
         dueFault(CODE, "plain;\u00e9", 1, 6);
         dueFault(CODE, "plain;\u0000", 1, 6);
+        dueFault(CODE, "plainz;", 1, 0);
         dueFault(CODE, "y;", 1, 0);
+        dueFault(CODE, "n;", 1, 0);
         dueFault(CODE, "lose 1;", 1, 0);
         dueFault(DRIVE, "stop;", 1, 0);
+        dueFault(DRIVE, "rate 1;", 1, 0);
+        dueFault(DRIVE, "lose 1;", 1, 0);
+        dueFault(LOSS, "go 1;", 1, 0);
+        dueFault(LOSS, "saw 1 1;", 1, 0);
+        dueFault(LOG, "lose 1;", 1, 0);
         dueFault(DRIVE, "y 1;", 1, 2);
         dueFault(DRIVE, "yn;", 1, 0);
         dueFault(DRIVE, "go;", 1, 2);
@@ -257,6 +265,7 @@ public final class PromiseTest {
         dueFault(CODE, many("plain;", 40), 0, NONE);
         dueFault(CODE, many("plain;", 41), 3, 240);
         dueFault(CODE, many("plain;", 40) + "bits 3;", 0, NONE);
+        dueFault(CODE, many("plain;", 40) + "mode 1;rate 2;", 0, NONE);
         dueFault(CODE, many("plain;", 40) + "if 40;", 3, 240);
         dueFault(CODE, "if 40;" + many("plain;", 40), 2, 3);
         dueFault(CODE, many("plain;", 41) + "if", 1, 248);
@@ -266,6 +275,8 @@ public final class PromiseTest {
         dueFault(CODE, many("if 40;", 41), 2, 3);
         dueFault(DRIVE, many("y;", 60), 0, NONE);
         dueFault(DRIVE, many("y;", 61), 3, 120);
+        dueFault(DRIVE, many("n;", 61), 3, 120);
+        dueFault(DRIVE, many("go 1;", 61), 3, 300);
         dueFault(DRIVE, many("y;", 60) + "go 40;", 3, 120);
         dueFault(LOSS, many("lose 0;", 12), 0, NONE);
         dueFault(LOSS, many("lose 0;", 13), 3, 84);
@@ -608,6 +619,32 @@ public final class PromiseTest {
         due("ratio", 7, x.sent(0, 0, 3));
     }
 
+    private static void dueDropped(String code, String drive, int dropped, int[][] packets) {
+        TracePackets x = told(code, drive);
+        duePackets(x, packets);
+        due("dropped of '" + code + "'", dropped, x.sent(0, 0, 4));
+    }
+
+    private static void packetDrops() {
+        // a GOTO
+        dueDropped("via;stop;room 3;rate 9;", many("go 0;", 5) + "go 1;", 1, new int[][] {
+            {0, 0, 0, 16, 0}, {2, 0, 1, 7, 0}, {2, 0, 1, 7, 1}});
+        // a MAP ahead of a SYNC: then the SYNC is not put at all
+        dueDropped("if 0;stop;bits 9;sync 2;room 3;rate 9;", many("y;", 7) + "n;", 1, new int[][] {
+            {0, 0, 0, 16, 0}, {1, 3, 2, 6, 2}, {0, 0, 2, 16, 2}});
+        // the END; the MAP ahead of it; an OFF
+        dueDropped("via;via;stop;room 3;rate 9;", "go 1;go 2;", 1, new int[][] {
+            {0, 0, 0, 16, 0}, {2, 1, 1, 7, 0}, {2, 2, 1, 7, 1}});
+        dueDropped("via;via;if 2;stop;room 3;rate 9;", "go 1;go 2;y;n;", 1, new int[][] {
+            {0, 0, 0, 16, 0}, {2, 1, 1, 7, 0}, {2, 2, 1, 7, 1}});
+        dueDropped("via;via;jump 3;plain;stop;to 2;room 3;rate 9;", "go 1;go 2;", 1, new int[][] {
+            {0, 0, 0, 16, 0}, {2, 1, 1, 7, 0}, {2, 2, 1, 7, 1}});
+        // it sees again at a step that is not traced: OVER there, SYNC when there is something to trace
+        dueDropped("via;via;via;plain;plain;plain;plain;plain;jump 0;to 2;room 3;rate 2;", "go 1;go 2;go 3;", 1,
+                new int[][] {{0, 0, 0, 16, 0}, {2, 1, 1, 7, 0}, {2, 2, 1, 7, 1}, {2, 3, 1, 7, 2}, {5, 0, 0, 4, 8},
+                    {0, 0, 0, 16, 9}, {4, 1, 0, 10, 10}});
+    }
+
     // 16
     private static void sent() {
         TracePackets x = loop();
@@ -641,6 +678,7 @@ public final class PromiseTest {
         TracePackets z = told("if 0;stop;bits 1;", "y;y;y;n;");
         due("sum with BITS 1", 16 + 4 * 5 + 10, z.sent(0, 0, 1));
         due("least", 4, z.sent(0, 0, 7));
+        due("least", 9, told("if 0;stop;", many("y;", 8) + "n;").sent(0, 0, 7));
         // a SYNC in the middle tells the two steps ahead of it, too, but the first one does not
         TracePackets w = told(many("plain;", 9) + "stop;sync 2;", "");
         due("packets", 6, w.sent(0, 0, 0));
@@ -719,6 +757,13 @@ public final class PromiseTest {
         due("without a MAP", 2, x.rebuilt(0, 0, 1, 0));
         due("without a MAP", 1, x.rebuilt(0, 0, 1, 100));
         due("cost", 2, x.rebuilt(0, 0, 1, 2));
+        // a GOTO tells all that leads to the via, and the via
+        TracePackets z = told("plain;plain;via;stop;", "go 3;");
+        Checks.tell(z, LOSS, "lose 2;");
+        due("up to the via", 3, z.rebuilt(0, 0, 0, 0));
+        for (int k = 0; k < 3; k++) {
+            due("up to the via", k, z.rebuilt(0, 0, 0, 1000 + k));
+        }
         // SYNCs of period 2: 0 1 | 2 3 | 4: a SYNC that is lost loses what is ahead of it and behind it
         TracePackets y = told("plain;plain;plain;plain;stop;sync 2;", "");
         duePackets(y, new int[][] {{0, 0, 0, 16, 0}, {0, 2, 2, 16, 2}, {0, 4, 2, 16, 4}, {4, 1, 0, 10, 5}});
@@ -759,6 +804,13 @@ public final class PromiseTest {
         TracePackets y = full();
         due("the stop is missed without a loss", 1, y.missed(0, 0, NONE, NONE));
         due("the stop is missed without a loss", 1, y.missed(0, 0, NONE, 0));
+        TracePackets w = told("plain;plain;stop;sync 2;", "");
+        Checks.tell(w, LOSS, "lose 2;");
+        due("what the last packet tells", 1, w.missed(0, 0, 0, NONE));
+        due("what the last packet tells", 2, w.missed(0, 0, 0, 0));
+        Checks.tell(w, LOSS, "lose 0;");
+        due("what the first packets tell", 2, w.missed(0, 0, 1, NONE));
+        due("what the first packets tell", 0, w.missed(0, 0, 1, 0));
         TracePackets z = told(FULL + "to 0;", FULL_DRIVE);
         due("what is not traced is not missed", 0, z.missed(0, 0, NONE, NONE));
     }
