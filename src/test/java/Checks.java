@@ -4,6 +4,7 @@ import java.nio.charset.StandardCharsets;
 final class Checks {
     private static int passed = 0;
     private static int failed = 0;
+    private static String topic = "";
 
     private Checks() { }
 
@@ -14,12 +15,27 @@ final class Checks {
         }
         failed++;
         if (failed <= 40) {
-            System.out.println(call + " answered " + got + ", due is " + want);
+            System.out.println(topic + call + " answered " + got + ", due is " + want);
         }
     }
 
     static void due(String call, boolean want, boolean got) {
         due(call, want ? 1 : 0, got ? 1 : 0);
+    }
+
+    static void due(String call, String want, String got) {
+        boolean same = want.equals(got);
+        due(same ? call : call + " ('" + got + "', not '" + want + "')", true, same);
+    }
+
+    /** What stands ahead of each call that is told from now on. */
+    static void topic(String words) {
+        topic = words;
+    }
+
+    /** How many answers were looked at. */
+    static int made() {
+        return passed + failed;
     }
 
     /** Prints the counts: ends the program with 1 if anything was not as due. */
@@ -48,6 +64,18 @@ final class Checks {
             x.feed(row[0], row[1], row[2], row[3], row[4]);
         }
         x.end(text.length());
+    }
+
+    /** A new object with one CODE and one DRIVE. */
+    static TracePackets told(String code, String drive) {
+        TracePackets x = new TracePackets();
+        due("code '" + code + "'", 0, tell(x, 0, code));
+        due("drive '" + drive + "'", 0, tell(x, 1, drive));
+        return x;
+    }
+
+    static String many(String part, int times) {
+        return part.repeat(times);
     }
 
     static int tell(TracePackets x, int sort, String text) {

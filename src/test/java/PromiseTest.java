@@ -56,10 +56,7 @@ public final class PromiseTest {
     }
 
     private static TracePackets told(String code, String drive) {
-        TracePackets x = new TracePackets();
-        due("code '" + code + "'", 0, Checks.tell(x, CODE, code));
-        due("drive '" + drive + "'", 0, Checks.tell(x, DRIVE, drive));
-        return x;
+        return Checks.told(code, drive);
     }
 
     private static TracePackets loop() {
