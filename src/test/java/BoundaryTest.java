@@ -11,6 +11,7 @@ public final class BoundaryTest {
         RunBoundaries.all();
         PacketBoundaries.all();
         RebuildBoundaries.all();
+        Sentences.nameAll(27);
         Path document = Path.of(System.getProperty("document", "../shared/DOC.md"));
         if (Files.exists(document)) {
             Sentences.holdAgainst(document);

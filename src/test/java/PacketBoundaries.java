@@ -90,20 +90,24 @@ final class PacketBoundaries {
     // Term 3
 
     private static void buffer() {
-        Sentences.holds("Term 3", "A RUN is ENCODED STEP by STEP: PACKETS that are PUT have numbers from 0 on, and come into a BUFFER.", () -> {
+        Sentences.holds("Term 3, Promise 15",
+                "A RUN is ENCODED STEP by STEP: PACKETS that are PUT have numbers from 0 on, and come into a"
+                + " BUFFER.", () -> {
             duePackets("", "", "");
             dueSent("", "", FULLEST, 0);
             duePackets("stop;", "", "S0,0@0 E1@1");
             dueSent("stop;", "", FULLEST, 2);
             due("the first is number 0", 0, told("stop;", "").packet(0, 0, 0, 0));
         });
-        Sentences.holds("Term 3", "There are a MAP (bits), a SHADOW (ADDRESSES), LAST (an ADDRESS), COUNT, ON or not (not at first), BLIND or"
-                + " not.", () -> {
+        Sentences.holds("Term 3, Promise 15",
+                "There are a MAP (bits), a SHADOW (ADDRESSES), LAST (an ADDRESS), COUNT, ON or not (not at"
+                + " first), BLIND or not.", () -> {
             duePackets("plain;stop;from 1;", "", "S1,0@1 E1@2");
             duePackets("plain;stop;from 2;", "", "");
             duePackets("stop;", "", "S0,0@0 E1@1");
         });
-        Sentences.holds("Term 3", "At STEP k: (1) if k is above 0 and divided by RATE: the first PACKET goes out of the BUFFER.", () -> {
+        Sentences.holds("Term 3, Promise 16",
+                "At STEP k: (1) if k is above 0 and divided by RATE: the first PACKET goes out of the BUFFER.", () -> {
             // two at STEP 0, one at each STEP, END behind the last: how full by RATE
             dueBuffer(1, 20, 2, 0);
             dueBuffer(2, 1, 3, 0);
@@ -120,7 +124,8 @@ final class PacketBoundaries {
             dueDropped(many("plain;", 20) + "via;stop;sync 99;room 3;rate 2;", many("go 20;", 5) + "go 21;", 1,
                     "S0,0@0 G20,2@20 G20,1@21 G20,1@22 G20,1@23 G20,1@24");
         });
-        Sentences.holds("Term 3", "(2) If it is BLIND, and the BUFFER is empty: OVER is PUT, it is BLIND no more, not ON.", () -> {
+        Sentences.holds("Term 3, Promise 15",
+                "(2) If it is BLIND, and the BUFFER is empty: OVER is PUT, it is BLIND no more, not ON.", () -> {
             // at STEP 7 there is still one in it, at STEP 8 none
             duePackets(FULL, many("y;", 6) + "n;", "S0,0@0 M1@0 M1@1 M1@2");
             duePackets(FULL, many("y;", 7) + "n;", "S0,0@0 M1@0 M1@1 M1@2 O@8 S1,0@8 E1@9");
@@ -143,8 +148,9 @@ final class PacketBoundaries {
     }
 
     private static void onAndOff() {
-        Sentences.holds("Term 3", "(3) If it is not BLIND: the STEP is not TRACED: if it is ON, the MAP is PUT, then OFF with COUNT, and it is"
-                + " not ON;", () -> {
+        Sentences.holds("Term 3, Promise 15",
+                "(3) If it is not BLIND: the STEP is not TRACED: if it is ON, the MAP is PUT, then OFF with"
+                + " COUNT, and it is not ON;", () -> {
             duePackets("plain;plain;plain;to 0;", "", "S0,0@0 F1@1");
             duePackets("plain;plain;plain;to 1;", "", "S0,0@0 F2@2");
             duePackets("if 1;plain;stop;to 0;", "y;", "S0,0@0 M1@1 F1@1");
@@ -154,8 +160,10 @@ final class PacketBoundaries {
             // BLIND: no OFF, and none is DROPPED
             dueDropped("if 0;plain;plain;to 0;bits 1;room 3;rate 9;", "y;y;n;", 1, "S0,0@0 M1@0 M1@1");
         });
-        Sentences.holds("Term 3", "the STEP is TRACED: if it is not ON, or COUNT is PERIOD or more, the MAP is PUT, then SYNC with this ADDRESS"
-                + " and COUNT (0, if it was not ON); it is ON, COUNT 0, LAST this ADDRESS, the SHADOW empty.", () -> {
+        Sentences.holds("Term 3, Promise 15",
+                "the STEP is TRACED: if it is not ON, or COUNT is PERIOD or more, the MAP is PUT, then SYNC"
+                + " with this ADDRESS and COUNT (0, if it was not ON); it is ON, COUNT 0, LAST this ADDRESS,"
+                + " the SHADOW empty.", () -> {
             // the least PERIOD, the greatest, that at first
             duePackets("plain;stop;sync 2;", "", "S0,0@0 E2@2");
             duePackets("plain;plain;stop;sync 2;", "", "S0,0@0 S2,2@2 E1@3");
@@ -180,14 +188,16 @@ final class PacketBoundaries {
     }
 
     private static void mapsAndTargets() {
-        Sentences.holds("Term 3", "(4) If it is ON then: if: 1 (yes), 0 comes to the MAP;", () -> {
+        Sentences.holds("Term 3, Promise 15", "(4) If it is ON then: if: 1 (yes), 0 comes to the MAP;", () -> {
             duePackets("if 0;stop;", "y;n;", "S0,0@0 M10@3 E3@3");
             duePackets("if 1;if 2;stop;", "n;y;", "S0,0@0 M01@3 E3@3");
             // not ON: nothing comes
             duePackets("if 1;if 2;stop;from 1;", "y;n;", "S1,0@1 M0@3 E2@3");
             duePackets("if 1;stop;from 1;", "y;", "S1,0@1 E1@2");
         });
-        Sentences.holds("Term 3", "call: the next ADDRESS comes upon the SHADOW, its lowest one goes, if there are more than DEEP;", () -> {
+        Sentences.holds("Term 3, Promise 15",
+                "call: the next ADDRESS comes upon the SHADOW, its lowest one goes, if there are more than"
+                + " DEEP;", () -> {
             duePackets(NEST + "deep 0;", "", "S0,0@0 G5,1@3 G3,1@4 G1,1@5 E7@7");
             duePackets(NEST + "deep 1;", "", "S0,0@0 M1@4 G3,1@4 G1,1@5 E7@7");
             duePackets(NEST + "deep 2;", "", "S0,0@0 M11@5 G1,1@5 E7@7");
@@ -205,13 +215,14 @@ final class PacketBoundaries {
             // not ON: nothing comes upon it
             duePackets("call 2;stop;ret;from 1;", "", "S2,0@1 G1,1@1 E2@3");
         });
-        Sentences.holds("Term 3", "via: the MAP is PUT, then GOTO with the ADDRESS;", () -> {
+        Sentences.holds("Term 3, Promise 15", "via: the MAP is PUT, then GOTO with the ADDRESS;", () -> {
             duePackets("via;stop;", "go 1;", "S0,0@0 G1,1@0 E2@2");
             duePackets("if 1;via;stop;", "y;go 2;", "S0,0@0 M1@1 G2,1@1 E3@3");
             duePackets("via;stop;from 1;", "go 1;", "S1,0@1 E1@2");
         });
-        Sentences.holds("Term 3", "ret: what is on top of the SHADOW (if any) is taken off: if that is the ADDRESS it goes to, 1 comes to the"
-                + " MAP; else the MAP is PUT, then GOTO with the ADDRESS.", () -> {
+        Sentences.holds("Term 3, Promise 15",
+                "ret: what is on top of the SHADOW (if any) is taken off: if that is the ADDRESS it goes to,"
+                + " 1 comes to the MAP; else the MAP is PUT, then GOTO with the ADDRESS.", () -> {
             duePackets("call 2;stop;ret;", "", "S0,0@0 M1@3 E3@3");
             duePackets("call 2;stop;ret;deep 0;", "", "S0,0@0 G1,1@1 E3@3");
             duePackets("call 3;call 3;stop;ret;deep 1;", "", "S0,0@0 M11@5 E5@5");
@@ -220,7 +231,8 @@ final class PacketBoundaries {
             // not ON: nothing comes
             duePackets("call 2;stop;ret;to 1;", "", "S0,0@0 F1@1 S1,0@2 E1@3");
         });
-        Sentences.holds("Term 3", "(Of a CHOICE that ENDS the RUN, of ret with an empty STACK nothing comes.)", () -> {
+        Sentences.holds("Term 3, Promise 15",
+                "(Of a CHOICE that ENDS the RUN, of ret with an empty STACK nothing comes.)", () -> {
             String[][] ended = {{"if 0;", ""}, {"if 0;", "go 0;"}, {"via;", ""}, {"via;", "y;"}, {"via;", "n;"}, {"ret;", ""}};
             for (String[] run : ended) {
                 duePackets(run[0], run[1], "S0,0@0 E1@1");
@@ -232,7 +244,7 @@ final class PacketBoundaries {
             duePackets("jump 2;ret;call 1;", "", "S0,0@0 M1@3 E3@3");
             duePackets("jump 2;ret;call 1;deep 0;", "", "S0,0@0 G3,1@2 E3@3");
         });
-        Sentences.holds("Term 3", "If the MAP has as many bits as BITS, it is PUT.", () -> {
+        Sentences.holds("Term 3, Promise 15", "If the MAP has as many bits as BITS, it is PUT.", () -> {
             duePackets("if 0;stop;bits 1;", "y;n;", "S0,0@0 M1@0 M0@1 E3@3");
             duePackets("if 0;bits 9;", many("y;", 8), "S0,0@0 M11111111@9 E9@9");
             duePackets("if 0;bits 9;", many("y;", 9), "S0,0@0 M111111111@8 E10@10");
@@ -241,19 +253,21 @@ final class PacketBoundaries {
             duePackets("if 0;", many("y;", 6), "S0,0@0 M111111@5 E7@7");
             duePackets("call 2;stop;ret;bits 1;", "", "S0,0@0 M1@1 E3@3");
         });
-        Sentences.holds("Term 3", "COUNT is 1 more.", () -> {
+        Sentences.holds("Term 3, Promise 15", "COUNT is 1 more.", () -> {
             duePackets("stop;", "", "S0,0@0 E1@1");
             duePackets("plain;plain;plain;from 1;", "", "S1,0@1 E2@3");
             duePackets("plain;plain;plain;to 1;", "", "S0,0@0 F2@2");
             duePackets("if 0;bits 1;", "y;y;", "S0,0@0 M1@0 M1@1 E3@3");
             duePackets("via;", "go 0;go 0;", "S0,0@0 G0,1@0 G0,1@1 E3@3");
         });
-        Sentences.holds("Term 3", "A MAP that was PUT is empty.", () -> {
+        Sentences.holds("Term 3, Promise 15", "A MAP that was PUT is empty.", () -> {
             duePackets("if 1;jump 0;bits 2;", "y;n;n;y;", "S0,0@0 M10@2 M01@6 E9@9");
             duePackets("if 1;via;stop;", "y;go 0;n;go 2;", "S0,0@0 M1@1 G0,1@1 M0@3 G2,1@3 E5@5");
             duePackets("if 1;jump 0;to 0;", "y;n;", "S0,0@0 M1@1 F1@1 S0,0@2 M0@3 F1@3 S0,0@4 E1@5");
         });
-        Sentences.holds("Term 3", "GOTO has one digit (the low one), if the high one is that of LAST, else two; LAST is its ADDRESS then.", () -> {
+        Sentences.holds("Term 3, Promise 15",
+                "GOTO has one digit (the low one), if the high one is that of LAST, else two; LAST is its"
+                + " ADDRESS then.", () -> {
             duePackets(many("via;", 40), "go 7;go 8;go 15;go 0;go 39;go 32;",
                     "S0,0@0 G7,1@0 G8,2@1 G15,1@2 G0,2@3 G39,2@4 G32,1@5 E7@7");
             // where it goes without a PACKET is not LAST
@@ -265,8 +279,9 @@ final class PacketBoundaries {
     }
 
     private static void drops() {
-        Sentences.holds("Term 3", "PUT: a MAP without bits is not; if the BUFFER has ROOM PACKETS, it is DROPPED (without a number), the MAP is"
-                + " empty, it is BLIND, not ON, and nothing more is done at this STEP.", () -> {
+        Sentences.holds("Term 3, Promise 15",
+                "PUT: a MAP without bits is not; if the BUFFER has ROOM PACKETS, it is DROPPED (without a"
+                + " number), the MAP is empty, it is BLIND, not ON, and nothing more is done at this STEP.", () -> {
             // no MAP without bits ahead of GOTO, SYNC, OFF, END
             duePackets("via;plain;plain;stop;to 2;sync 2;", "go 1;", "S0,0@0 G1,1@0 S2,2@2 F1@3");
             // the least ROOM, the greatest: the last that comes, the first that is DROPPED
@@ -296,7 +311,9 @@ final class PacketBoundaries {
     }
 
     private static void ends() {
-        Sentences.holds("Term 3", "Behind the last STEP, if it is ON: the MAP is PUT, then END with COUNT (if not BLIND by then).", () -> {
+        Sentences.holds("Term 3, Promise 15",
+                "Behind the last STEP, if it is ON: the MAP is PUT, then END with COUNT (if not BLIND by"
+                + " then).", () -> {
             duePackets("", "", "");
             duePackets("stop;", "", "S0,0@0 E1@1");
             duePackets("stop;from 1;", "", "");
@@ -310,7 +327,9 @@ final class PacketBoundaries {
             // none goes out of the BUFFER behind the last STEP, though RATE would divide it
             dueDropped("via;via;stop;room 3;rate 3;", "go 1;go 2;", 1, "S0,0@0 G1,1@0 G2,1@1");
         });
-        Sentences.holds("Term 3", "BITS OF A PACKET: SYNC 16, MAP 4 and its bits, GOTO 4 and 3 for each digit, OFF, END 10, OVER 4.", () -> {
+        Sentences.holds("Term 3, Promise 15",
+                "BITS OF A PACKET: SYNC 16, MAP 4 and its bits, GOTO 4 and 3 for each digit, OFF, END 10,"
+                + " OVER 4.", () -> {
             dueBits("stop;", "", 16, 10);
             dueBits("plain;stop;to 0;", "", 16, 10);
             dueBits("if 0;bits 1;", "y;", 16, 5, 10);
@@ -335,13 +354,14 @@ final class PacketBoundaries {
     // Term 5, of PACKETS
 
     private static void sums() {
-        Sentences.holds("Term 5", "Of PACKETS: SUM of BITS;", () -> {
+        Sentences.holds("Term 5, Promise 16", "Of PACKETS: SUM of BITS;", () -> {
             dueSent("", "", SUM, 0);
             dueSent("stop;from 1;", "", SUM, 0);
             dueSent("stop;", "", SUM, 26);
             dueSent(FULL, many("y;", 7) + "n;", SUM, 61);
         });
-        Sentences.holds("Term 5", "RATIO: SUM by STEPS that are TRACED, a fraction in least terms (none: none);", () -> {
+        Sentences.holds("Term 5, Promise 16",
+                "RATIO: SUM by STEPS that are TRACED, a fraction in least terms (none: none);", () -> {
             dueRatio("", NONE, NONE);
             dueRatio("plain;stop;from 2;", NONE, NONE);
             dueRatio("stop;", 26, 1);
@@ -352,7 +372,7 @@ final class PacketBoundaries {
             // STEPS that are not TRACED do not count
             dueRatio("plain;plain;stop;to 1;", 13, 1);
         });
-        Sentences.holds("Term 5", "of each kind how many;", () -> {
+        Sentences.holds("Term 5, Promise 16", "of each kind how many;", () -> {
             dueKinds("", "", 0, 0, 0, 0, 0, 0);
             dueKinds("stop;", "", 1, 0, 0, 0, 1, 0);
             dueKinds("jump 1;plain;if 0;stop;to 0;", "y;n;", 2, 0, 0, 2, 0, 0);
@@ -360,14 +380,14 @@ final class PacketBoundaries {
             dueKinds(FULL, many("y;", 13) + "n;", 3, 4, 0, 0, 1, 2);
             dueKinds("jump 0;sync 2;", "", 100, 0, 0, 0, 1, 0);
         });
-        Sentences.holds("Term 5", "DROPPED;", () -> {
+        Sentences.holds("Term 5, Promise 16", "DROPPED;", () -> {
             dueSent("", "", DROPPED, 0);
             dueSent(FULL, "y;y;", DROPPED, 0);
             dueSent(FULL, "y;y;y;", DROPPED, 1);
             dueSent(FULL, "y;y;y;y;", DROPPED, 1);
             dueSent(FULL, many("y;", 10), DROPPED, 2);
         });
-        Sentences.holds("Term 5", "FULLEST: the most in the BUFFER;", () -> {
+        Sentences.holds("Term 5, Promise 16", "FULLEST: the most in the BUFFER;", () -> {
             dueSent("", "", FULLEST, 0);
             dueSent("stop;from 1;", "", FULLEST, 0);
             dueSent("plain;stop;to 0;", "", FULLEST, 1);
@@ -375,8 +395,10 @@ final class PacketBoundaries {
             dueSent(FULL, many("y;", 20), FULLEST, 3);
             dueBuffer(9, 20, 9, 1);
         });
-        Sentences.holds("Term 5", "GAP: the longest row of STEPS, one behind the other, all of which are TRACED, none of which is REBUILT without"
-                + " any loss (STEPS of a PIECE are those from that on at which its first SYNC was PUT).", () -> {
+        Sentences.holds("Term 5, Promise 16",
+                "GAP: the longest row of STEPS, one behind the other, all of which are TRACED, none of which"
+                + " is REBUILT without any loss (STEPS of a PIECE are those from that on at which its first"
+                + " SYNC was PUT).", () -> {
             dueSent("", "", GAP, 0);
             dueSent("stop;from 1;", "", GAP, 0);
             dueSent("jump 0;", "", GAP, 0);
@@ -387,10 +409,10 @@ final class PacketBoundaries {
             // at the end: what END would have told
             dueSent("via;stop;room 3;rate 9;", "go 0;go 1;", GAP, 1);
             // a STEP that is not TRACED ends a row: 2 3, 5 6 7
-            dueSent("via;via;via;plain;mode 1;plain;mode 0;plain;plain;plain;mode 1;stop;only 0;room 3;rate 9;", "go 1;go 2;go 3;",
-                    GAP, 3);
+            dueSent("via;via;via;plain;mode 1;plain;mode 0;plain;plain;plain;mode 1;stop;only 0;room 3;rate 9;",
+                    "go 1;go 2;go 3;", GAP, 3);
         });
-        Sentences.holds("Term 5", "SAVED: by how much less SUM is than with DEEP 0.", () -> {
+        Sentences.holds("Term 5, Promise 16", "SAVED: by how much less SUM is than with DEEP 0.", () -> {
             dueSent("", "", SAVED, 0);
             dueSent("stop;", "", SAVED, 0);
             dueSent("call 2;stop;ret;deep 0;", "", SAVED, 0);
@@ -400,7 +422,8 @@ final class PacketBoundaries {
             // with DEEP 0 END is DROPPED: 30 bits, 32 without
             dueSent("call 3;call 3;stop;ret;room 3;rate 9;", "", SAVED, -2);
         });
-        Sentences.holds("Term 5", "LEAST: the BITS, 1 .. 9, all else as told, by which the SUM is least, of several the least.", () -> {
+        Sentences.holds("Term 5, Promise 16",
+                "LEAST: the BITS, 1 .. 9, all else as told, by which the SUM is least, of several the least.", () -> {
             dueSent("", "", LEAST_BITS, 1);
             dueSent("stop;bits 9;", "", LEAST_BITS, 1);
             for (int bits = 1; bits <= 9; bits++) {
@@ -415,7 +438,9 @@ final class PacketBoundaries {
             dueSent(NEST + "deep 3;", "", LEAST_BITS, 3);
             dueSent(NEST + "deep 0;", "", LEAST_BITS, 1);
         });
-        Sentences.holds("Term 5", "WORST: the PACKET, lost alone, by which fewest are REBUILT, of several the least (no PACKETS: none).", () -> {
+        Sentences.holds("Term 5, Promise 16",
+                "WORST: the PACKET, lost alone, by which fewest are REBUILT, of several the least (no"
+                + " PACKETS: none).", () -> {
             dueSent("", "", WORST, NONE);
             dueSent("stop;from 1;", "", WORST, NONE);
             dueSent("stop;", "", WORST, 0);
@@ -446,12 +471,15 @@ final class PacketBoundaries {
     // Promises 15, 16
 
     private static void answersOfPackets() {
-        Sentences.holds("Promise 15", "Of PACKET k, what 0: 0 SYNC, 1 MAP, 2 GOTO, 3 OFF, 4 END, 5 OVER,", () -> {
+        Sentences.holds("Promise 15",
+                "Of PACKET k, what 0: 0 SYNC, 1 MAP, 2 GOTO, 3 OFF, 4 END, 5 OVER,", () -> {
             dueWhat("stop;", "", 0, 0, 4);
             dueWhat("if 1;via;stop;to 1;", "y;go 2;", 0, 0, 1, 2, 3);
             dueWhat(FULL, many("y;", 7) + "n;", 0, 0, 1, 1, 1, 5, 0, 4);
         });
-        Sentences.holds("Promise 15", "1: its ADDRESS, bits of a MAP (the first one is 1 of the number), COUNT of OFF, END (0 of OVER),", () -> {
+        Sentences.holds("Promise 15",
+                "1: its ADDRESS, bits of a MAP (the first one is 1 of the number), COUNT of OFF, END (0 of"
+                + " OVER),", () -> {
             dueWhat("jump 39;" + many("stop;", 38) + "jump 39;from 39;sync 99;", "", 1, 39, 39, 39, 1);
             dueWhat("if 1;jump 0;sync 99;", "y;n;n;n;n;n;", 1, 0, 1, 13);
             dueWhat("if 1;jump 0;sync 99;", "n;n;n;n;n;y;", 1, 0, 32, 13);
@@ -462,7 +490,8 @@ final class PacketBoundaries {
             dueWhat("plain;plain;stop;to 1;", "", 1, 0, 2);
             dueWhat(FULL, many("y;", 7) + "n;", 1, 0, 1, 1, 1, 0, 1, 1);
         });
-        Sentences.holds("Promise 15", "2: COUNT of SYNC, how many bits of a MAP, digits of GOTO (0 of others),", () -> {
+        Sentences.holds("Promise 15",
+                "2: COUNT of SYNC, how many bits of a MAP, digits of GOTO (0 of others),", () -> {
             dueWhat("jump 0;sync 99;", "", 2, 0, 99, 99, 0);
             dueWhat("if 1;jump 0;sync 99;bits 9;", many("n;", 10), 2, 0, 9, 1, 0);
             dueWhat("via;", "go 7;", 2, 0, 1, 0);
@@ -475,12 +504,14 @@ final class PacketBoundaries {
             dueWhat("if 1;via;stop;to 1;", "y;go 2;", 3, 16, 5, 7, 10);
             dueWhat(FULL, many("y;", 7) + "n;", 3, 16, 5, 5, 5, 4, 16, 10);
         });
-        Sentences.holds("Promise 15", "4: the STEP at which it was PUT (how many there are, behind the last one).", () -> {
+        Sentences.holds("Promise 15",
+                "4: the STEP at which it was PUT (how many there are, behind the last one).", () -> {
             dueWhat("stop;", "", 4, 0, 1);
             dueWhat("if 1;stop;", "y;", 4, 0, 2, 2);
             dueWhat("jump 0;sync 99;", "", 4, 0, 99, 198, 200);
         });
-        Sentences.holds("Promise 15", "NONE: not so many, there is none such (of either), or for another what.", () -> {
+        Sentences.holds("Promise 15",
+                "NONE: not so many, there is none such (of either), or for another what.", () -> {
             TracePackets x = told("stop;", "");
             TracePackets none = told("", "");
             for (int what = 0; what < 5; what++) {
@@ -509,8 +540,9 @@ final class PacketBoundaries {
     }
 
     private static void answersOfSent() {
-        Sentences.holds("Promise 16", "What 0: PACKETS, 1: SUM, 2, 3: N, D of RATIO (NONE), 4: DROPPED, 5: FULLEST, 6: GAP, 7: LEAST, 8: WORST"
-                + " (NONE), 9: SAVED, 10 + i: how many of a kind, as in packet().", () -> {
+        Sentences.holds("Promise 16",
+                "What 0: PACKETS, 1: SUM, 2, 3: N, D of RATIO (NONE), 4: DROPPED, 5: FULLEST, 6: GAP, 7:"
+                + " LEAST, 8: WORST (NONE), 9: SAVED, 10 + i: how many of a kind, as in packet().", () -> {
             TracePackets x = told("", "");
             Checks.tell(x, CODE, "call 2;stop;if 3;ret;");
             Checks.tell(x, DRIVE, "y;");
@@ -520,6 +552,16 @@ final class PacketBoundaries {
             for (int what = 0; what < 16; what++) {
                 due("of no instructions " + what, empty[what], x.sent(0, 0, what));
                 due("sent " + what, want[what], x.sent(1, 1, what));
+            }
+            // what was sent by another RUN is not of this one
+            TracePackets y = told(FULL, many("y;", 9) + "n;");
+            Checks.tell(y, CODE, "stop;");
+            // ten bits: in two MAPS of 5 bits nothing is DROPPED, 44 in all
+            int[] full = {7, 56, 56, 11, 2, 3, 5, 5, 0, 0, 2, 4, 0, 0, 0, 1};
+            int[] stop = {2, 26, 26, 1, 0, 2, 0, 1, 0, 0, 1, 0, 0, 0, 1, 0};
+            for (int what = 0; what < 16; what++) {
+                due("sent by what overflows " + what, full[what], y.sent(0, 0, what));
+                due("sent by a stop " + what, stop[what], y.sent(1, 0, what));
             }
         });
         Sentences.holds("Promise 16", "-2: there is none such (of either), or for another what.", () -> {

@@ -78,8 +78,9 @@ final class RebuildBoundaries {
     // Term 4
 
     private static void kindsOfPackets() {
-        Sentences.holds("Term 4", "What is REBUILT of PACKETS but those of a LOSS: it goes along the CODE, knowing an ADDRESS or none (at first"
-                + " none).", () -> {
+        Sentences.holds("Term 4, Promise 17",
+                "What is REBUILT of PACKETS but those of a LOSS: it goes along the CODE, knowing an ADDRESS"
+                + " or none (at first none).", () -> {
             duePackets(SYNCS, "", "S0,0@0 S2,2@2 S4,2@4 E1@5");
             dueRebuilt("", "", null, "");
             dueRebuilt("", "", "lose 0;", "");
@@ -89,12 +90,13 @@ final class RebuildBoundaries {
             dueRebuilt(SYNCS, "", "lose 4;lose 99;", "0 1 2 3 4");
             dueRebuilt(SYNCS, "", "lose 0;lose 1;lose 2;lose 3;", "");
             dueRebuilt(SYNCS, "", "lose 0;lose 1;lose 2;", "");
-            // all of twelve, and one more that is there
-            dueRebuilt("jump 0;sync 2;to 39;", "", "lose 0;lose 1;lose 2;lose 3;lose 4;lose 5;lose 6;lose 7;lose 8;lose 9;lose 10;lose 11;",
-                    many("0 ", 175) + "0");
+            // as many as a LOSS can have
+            dueRebuilt("jump 0;sync 2;", "", "lose 0;lose 1;lose 2;lose 3;lose 4;lose 5;lose 6;lose 7;lose 8;lose 9;"
+                    + "lose 10;lose 11;", many("0 ", 175) + "0");
         });
-        Sentences.holds("Term 4", "SYNC: if it knows one, it goes on to COUNT; it knows that ADDRESS then, COUNT 0, SHADOW empty, LAST it; if it"
-                + " knew none, a PIECE begins.", () -> {
+        Sentences.holds("Term 4, Promise 17",
+                "SYNC: if it knows one, it goes on to COUNT; it knows that ADDRESS then, COUNT 0, SHADOW"
+                + " empty, LAST it; if it knew none, a PIECE begins.", () -> {
             // knows none: what was counted ahead of it is not told
             dueRebuilt(SYNCS, "", "lose 0;", "2 3 4");
             dueRebuilt(SYNCS, "", "lose 0;lose 1;", "4");
@@ -109,7 +111,9 @@ final class RebuildBoundaries {
             // LAST: a digit alone is enough, though what was ahead was lost
             dueRebuilt("jump 8;" + many("stop;", 7) + "plain;via;stop;sync 2;", "go 10;", "lose 0;", "9 10");
         });
-        Sentences.holds("Term 4", "MAP: it goes on, till all bits are used, one at each if, 1 at each ret (the ADDRESS on top of the SHADOW).", () -> {
+        Sentences.holds("Term 4, Promise 17",
+                "MAP: it goes on, till all bits are used, one at each if, 1 at each ret (the ADDRESS on top"
+                + " of the SHADOW).", () -> {
             // lost is what only END tells: all behind the last bit
             dueRebuilt("plain;if 3;plain;plain;stop;", "y;", "lose 2;", "0 1");
             dueRebuilt("plain;if 3;plain;plain;stop;", "y;", null, "0 1 3 4");
@@ -123,7 +127,8 @@ final class RebuildBoundaries {
             // as deep as DEEP 4
             dueRebuilt("call 2;stop;call 4;ret;call 6;ret;call 8;ret;ret;deep 4;", "", null, "0 2 4 6 8 7 5 3 1");
         });
-        Sentences.holds("Term 4", "GOTO: it goes on to a via or ret, and on to that ADDRESS.", () -> {
+        Sentences.holds("Term 4, Promise 17",
+                "GOTO: it goes on to a via or ret, and on to that ADDRESS.", () -> {
             dueRebuilt("via;stop;", "go 1;", "lose 2;", "0");
             dueRebuilt("plain;jump 2;via;stop;", "go 3;", "lose 2;", "0 1 2");
             dueRebuilt("call 2;stop;plain;ret;deep 0;", "", "lose 2;", "0 2 3");
@@ -134,10 +139,12 @@ final class RebuildBoundaries {
             // five calls with DEEP 4: the last ret is told by a GOTO
             dueRebuilt("call 2;stop;call 4;ret;call 6;ret;call 8;ret;call 10;ret;ret;deep 4;", "", null,
                     "0 2 4 6 8 10 9 7 5 3 1");
+            // on its way to a via it keeps the SHADOW for a ret that the MAP tells
+            dueRebuilt("call 2;stop;plain;via;ret;", "go 4;", null, "0 2 3 4 1");
             // behind a GOTO of a ret the SHADOW is as it was encoded
             dueRebuilt("call 4;call 4;call 4;stop;call 6;ret;ret;deep 1;", "", null, "0 4 6 5 1 4 6 5 2 4 6 5 3");
         });
-        Sentences.holds("Term 4", "OFF, END: it goes on to COUNT, and knows none.", () -> {
+        Sentences.holds("Term 4, Promise 17", "OFF, END: it goes on to COUNT, and knows none.", () -> {
             duePackets(OFFS, "y;n;", "S0,0@0 F2@2 S0,0@3 F2@5");
             dueRebuilt(OFFS, "y;n;", null, "0 1 | 0 1");
             dueRebuilt("plain;plain;stop;to 0;", "", null, "0");
@@ -146,7 +153,7 @@ final class RebuildBoundaries {
             dueRebuilt("jump 0;sync 99;", "", null, many("0 ", 199) + "0");
             dueRebuilt("jump 0;sync 99;", "", "lose 0;lose 1;", "0 0");
         });
-        Sentences.holds("Term 4", "OVER, a PACKET that is lost: it knows none.", () -> {
+        Sentences.holds("Term 4, Promise 17", "OVER, a PACKET that is lost: it knows none.", () -> {
             duePackets(FULL, FULL_DRIVE, "S0,0@0 M1@0 M1@1 M1@2 O@8 S0,0@8 M1@8");
             dueRebuilt(FULL, FULL_DRIVE, null, "0 0 0 | 0");
             // each one lost alone
@@ -158,7 +165,7 @@ final class RebuildBoundaries {
             dueRebuilt(OFFS, "y;n;", "lose 1;", "- | 0 1");
             dueRebuilt(OFFS, "y;n;", "lose 3;", "0 1 | -");
         });
-        Sentences.holds("Term 4", "(If it knows none, MAP, GOTO, OFF, END do nothing.)", () -> {
+        Sentences.holds("Term 4, Promise 17", "(If it knows none, MAP, GOTO, OFF, END do nothing.)", () -> {
             duePackets(KINDS, KINDS_DRIVE, "S0,0@0 M1@2 G3,1@2 E4@4");
             dueRebuilt(KINDS, KINDS_DRIVE, null, "0 1 2 3");
             dueRebuilt(KINDS, KINDS_DRIVE, "lose 0;", "");
@@ -172,9 +179,10 @@ final class RebuildBoundaries {
     }
 
     private static void goingOn() {
-        Sentences.holds("Term 4", "Going on by a STEP, this is REBUILT, and it knows the ADDRESS behind it (as in a RUN; as the MAP, the GOTO tell;"
-                + " SHADOW and LAST as above; to COUNT: COUNT STEPS are REBUILT since the SYNC then, the ADDRESS behind the last one"
-                + " is not asked for).", () -> {
+        Sentences.holds("Term 4, Promise 17",
+                "Going on by a STEP, this is REBUILT, and it knows the ADDRESS behind it (as in a RUN; as the"
+                + " MAP, the GOTO tell; SHADOW and LAST as above; to COUNT: COUNT STEPS are REBUILT since the"
+                + " SYNC then, the ADDRESS behind the last one is not asked for).", () -> {
             // the last STEP is one that ENDS the RUN
             for (String code : new String[] {"stop;", "if 0;", "via;", "ret;", "plain;"}) {
                 dueRebuilt(code, "", null, "0");
@@ -189,8 +197,9 @@ final class RebuildBoundaries {
             dueRebuilt("jump 2;ret;call 1;", "", null, "0 2 1");
             dueRebuilt("if 1;plain;to 0;", "y;", null, "0");
         });
-        Sentences.holds("Term 4", "PIECES: rows of STEPS that are REBUILT, one behind the other, each from a SYNC on at which it knew none to where"
-                + " it knew none again (one of no STEPS, too).", () -> {
+        Sentences.holds("Term 4, Promise 17",
+                "PIECES: rows of STEPS that are REBUILT, one behind the other, each from a SYNC on at which"
+                + " it knew none to where it knew none again (one of no STEPS, too).", () -> {
             dueRebuilt("stop;from 1;", "", null, "");
             dueRebuilt("stop;", "", "lose 0;", "");
             dueRebuilt("stop;", "", "lose 1;", "-");
@@ -203,7 +212,9 @@ final class RebuildBoundaries {
     // Term 5, of a LOSS
 
     private static void costs() {
-        Sentences.holds("Term 5", "Of a LOSS: MISSED: ADDRESSES at which STEPS are TRACED, none of which is REBUILT, rising: how many; the k-th.", () -> {
+        Sentences.holds("Term 5, Promise 18",
+                "Of a LOSS: MISSED: ADDRESSES at which STEPS are TRACED, none of which is REBUILT, rising:"
+                + " how many; the k-th.", () -> {
             dueMissed("", "", "");
             dueMissed(KINDS, KINDS_DRIVE, "");
             dueMissed(KINDS, KINDS_DRIVE, "lose 0;", 0, 1, 2, 3);
@@ -223,7 +234,7 @@ final class RebuildBoundaries {
             }
             dueMissed(many("plain;", 40) + "sync 99;", "", "lose 1;", all);
         });
-        Sentences.holds("Term 5", "COST: how many STEPS fewer are REBUILT than without any;", () -> {
+        Sentences.holds("Term 5, Promise 17", "COST: how many STEPS fewer are REBUILT than without any;", () -> {
             dueCost("", "", "lose 0;", 0);
             dueCost(SYNCS, "", "", 0);
             dueCost(SYNCS, "", "lose 99;", 0);
@@ -261,8 +272,9 @@ final class RebuildBoundaries {
     // Term 4, by a LOG
 
     private static void fitting() {
-        Sentences.holds("Term 4", "By a LOG of a RUN: losses of one PACKET (any of the RUN's), or of none, FIT, if each ADDRESS of a FACT is REBUILT"
-                + " just so often: how many; the k-th, rising, none (NONE) ahead of all;", () -> {
+        Sentences.holds("Term 4, Promise 23",
+                "By a LOG of a RUN: losses of one PACKET (any of the RUN's), or of none, FIT, if each ADDRESS"
+                + " of a FACT is REBUILT just so often: how many; the k-th, rising, none (NONE) ahead of all;", () -> {
             // S0 M1 G3 E4: without 0, 1 nothing is REBUILT, without 2 0, without 3 0 1 2
             dueFits(KINDS, KINDS_DRIVE, "", NONE, 0, 1, 2, 3);
             dueFits(KINDS, KINDS_DRIVE, "saw 0 1;", NONE, 2, 3);
@@ -292,8 +304,9 @@ final class RebuildBoundaries {
             // PACKETS beyond those that a LOSS can have
             dueFits(PIECES, PIECES_DRIVE, "saw 2 0;", 120, 121);
         });
-        Sentences.holds("Term 4", "ASK: the ADDRESS such that of all that FIT the greatest number by which it is REBUILT as often is least, of several"
-                + " the least.", () -> {
+        Sentences.holds("Term 4, Promise 23",
+                "ASK: the ADDRESS such that of all that FIT the greatest number by which it is REBUILT as"
+                + " often is least, of several the least.", () -> {
             // 0: 1 0 0 1 1 (three as often), 1 and 2: 1 0 0 0 1 (three), 3: 1 0 0 0 0 (four)
             dueAsk(KINDS, KINDS_DRIVE, "", 0);
             // of NONE, 2, 3: 0: 1 1 1; 1 and 2: 1 0 1; 3: 1 0 0
@@ -332,8 +345,9 @@ final class RebuildBoundaries {
     // Promises 17, 18
 
     private static void answersOfRebuilt() {
-        Sentences.holds("Promise 17", "REBUILT but for a LOSS (of NONE: none is lost), what 0: how many STEPS, 1: PIECES, 2: COST, 100 + p: how many STEPS"
-                + " of a PIECE, 1000 + k: the ADDRESS of the k-th of all.", () -> {
+        Sentences.holds("Promise 17",
+                "REBUILT but for a LOSS (of NONE: none is lost), what 0: how many STEPS, 1: PIECES, 2: COST,"
+                + " 100 + p: how many STEPS of a PIECE, 1000 + k: the ADDRESS of the k-th of all.", () -> {
             TracePackets x = told("jump 0;sync 99;", "");
             Checks.tell(x, LOSS, "");
             Checks.tell(x, LOSS, "lose 1;");
@@ -355,7 +369,8 @@ final class RebuildBoundaries {
             due("the last", 80, y.rebuilt(0, 0, NONE, 160));
             due("no more", NONE, y.rebuilt(0, 0, NONE, 161));
         });
-        Sentences.holds("Promise 17", "NONE: not so many, there is none such (of any), or for another what.", () -> {
+        Sentences.holds("Promise 17",
+                "NONE: not so many, there is none such (of any), or for another what.", () -> {
             TracePackets x = told("plain;stop;", "");
             Checks.tell(x, LOSS, "lose 0;");
             for (int what : new int[] {-1, -2, 3, 4, 10, 99, 101, 102, 356, 357, 999, 1002, 1003, 1200, 1201, LEAST, GREATEST}) {
@@ -375,7 +390,8 @@ final class RebuildBoundaries {
                 due("of a new object", NONE, new TracePackets().rebuilt(0, 0, NONE, what));
             }
         });
-        Sentences.holds("Promise 18", "MISSED by a LOSS (of NONE: none is lost): how many (k NONE), or the k-th.", () -> {
+        Sentences.holds("Promise 18",
+                "MISSED by a LOSS (of NONE: none is lost): how many (k NONE), or the k-th.", () -> {
             TracePackets x = told(KINDS, KINDS_DRIVE);
             Checks.tell(x, LOSS, "");
             Checks.tell(x, LOSS, "lose 3;");
@@ -407,7 +423,9 @@ final class RebuildBoundaries {
     // Promise 23
 
     private static void answersOfFits() {
-        Sentences.holds("Promise 23", "What 0: how many FIT, 1: ASK (NONE: nothing FITS, or there are no INSTRUCTIONS), 10 + k: the k-th.", () -> {
+        Sentences.holds("Promise 23",
+                "What 0: how many FIT, 1: ASK (NONE: nothing FITS, or there are no INSTRUCTIONS), 10 + k: the"
+                + " k-th.", () -> {
             dueFits("stop;", "", "", NONE, 0, 1);
             dueFits("stop;", "", "saw 0 2;");
             dueAsk("stop;", "", "", 0);

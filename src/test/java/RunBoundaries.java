@@ -64,11 +64,12 @@ final class RunBoundaries {
     // Term 2
 
     private static void ways() {
-        Sentences.holds("Term 2", "A RUN of a CODE by a DRIVE has STEPS, from 0 on, each at an ADDRESS, the first at 0;", () -> {
+        Sentences.holds("Term 2, Promise 10",
+                "A RUN of a CODE by a DRIVE has STEPS, from 0 on, each at an ADDRESS, the first at 0;", () -> {
             dueSteps("stop;", "", 1, 0);
             dueSteps("plain;stop;", "y;n;go 1;", 1, 0, 1);
         });
-        Sentences.holds("Term 2", "behind it is: plain: the next ADDRESS;", () -> {
+        Sentences.holds("Term 2, Promise 10", "behind it is: plain: the next ADDRESS;", () -> {
             int[] all = new int[40];
             for (int a = 0; a < 40; a++) {
                 all[a] = a;
@@ -76,30 +77,32 @@ final class RunBoundaries {
             dueSteps(many("plain;", 40), "", 3, all);
             dueSteps(many("plain;", 39) + "stop;", "", 1, all);
         });
-        Sentences.holds("Term 2", "if: by the next CHOICE, yes: the TARGET, no: the next ADDRESS;", () -> {
+        Sentences.holds("Term 2, Promise 10",
+                "if: by the next CHOICE, yes: the TARGET, no: the next ADDRESS;", () -> {
             dueSteps("if 2;stop;stop;", "y;", 1, 0, 2);
             dueSteps("if 2;stop;stop;", "n;", 1, 0, 1);
             dueSteps("if 0;stop;", "y;y;n;y;", 1, 0, 0, 0, 1);
             // the last INSTRUCTION: there is none behind it
             dueSteps("jump 39;" + many("stop;", 38) + "if 39;", "y;n;", 3, 0, 39, 39);
         });
-        Sentences.holds("Term 2", "jump: the TARGET;", () -> {
+        Sentences.holds("Term 2, Promise 10", "jump: the TARGET;", () -> {
             dueSteps("jump 39;" + many("stop;", 38) + "jump 38;", "", 1, 0, 39, 38);
             dueRun("jump 0;", "", STEPS, 200);
         });
-        Sentences.holds("Term 2", "call: the TARGET, the next ADDRESS being put upon the STACK;", () -> {
+        Sentences.holds("Term 2, Promise 10",
+                "call: the TARGET, the next ADDRESS being put upon the STACK;", () -> {
             dueSteps("call 2;stop;ret;", "", 1, 0, 2, 1);
             // the last INSTRUCTION: back to where there is none
             dueSteps("jump 2;ret;call 1;", "", 3, 0, 2, 1);
             dueSteps("jump 39;ret;" + many("stop;", 37) + "call 1;", "", 3, 0, 39, 1);
         });
-        Sentences.holds("Term 2", "ret: the ADDRESS that is taken off it;", () -> {
+        Sentences.holds("Term 2, Promise 10", "ret: the ADDRESS that is taken off it;", () -> {
             // the latest call first, the first one last
             dueSteps("call 2;stop;call 4;ret;call 6;ret;ret;", "", 1, 0, 2, 4, 6, 5, 3, 1);
             // what was taken off is gone
             dueSteps("call 2;ret;ret;", "", 4, 0, 2, 1);
         });
-        Sentences.holds("Term 2", "via: by the next CHOICE, to that ADDRESS.", () -> {
+        Sentences.holds("Term 2, Promise 10", "via: by the next CHOICE, to that ADDRESS.", () -> {
             dueSteps("via;stop;", "go 0;go 0;go 1;", 1, 0, 0, 0, 1);
             dueSteps("via;" + many("stop;", 39), "go 39;", 1, 0, 39);
             dueSteps("via;" + many("stop;", 38), "go 39;", 3, 0);
@@ -107,16 +110,18 @@ final class RunBoundaries {
     }
 
     private static void endings() {
-        Sentences.holds("Term 2", "It ENDS behind a STEP (without a STEP, where there is no INSTRUCTION at 0):", () -> {
+        Sentences.holds("Term 2, Promise 9",
+                "It ENDS behind a STEP (without a STEP, where there is no INSTRUCTION at 0):", () -> {
             dueSteps("", "", 3);
             dueSteps("mode 1;bits 1;", "y;", 3);
             dueSteps("stop;", "", 1, 0);
         });
-        Sentences.holds("Term 2", "1 at stop;", () -> {
+        Sentences.holds("Term 2, Promise 9", "1 at stop;", () -> {
             dueSteps("stop;stop;", "", 1, 0);
             dueSteps("call 1;stop;", "y;", 1, 0, 1);
         });
-        Sentences.holds("Term 2", "2 if the next CHOICE is of another sort, or there is none;", () -> {
+        Sentences.holds("Term 2, Promise 9",
+                "2 if the next CHOICE is of another sort, or there is none;", () -> {
             dueSteps("if 0;", "", 2, 0);
             dueSteps("if 0;", "go 0;", 2, 0);
             dueSteps("if 0;", "y;", 2, 0, 0);
@@ -129,14 +134,14 @@ final class RunBoundaries {
             dueRun("if 0;", many("y;", 60), STEPS, 61);
             dueRun("if 0;", many("y;", 60), ENDS, 2);
         });
-        Sentences.holds("Term 2", "3 if there is no INSTRUCTION at the ADDRESS it comes to;", () -> {
+        Sentences.holds("Term 2, Promise 9", "3 if there is no INSTRUCTION at the ADDRESS it comes to;", () -> {
             dueSteps("plain;", "", 3, 0);
             dueSteps("if 0;", "n;", 3, 0);
             dueSteps("via;", "go 1;", 3, 0);
             dueSteps("via;", "go 39;", 3, 0);
             dueSteps(many("plain;", 39) + "if 0;", many("n;", 1), 3, java.util.stream.IntStream.range(0, 40).toArray());
         });
-        Sentences.holds("Term 2", "4 at ret, if the STACK is empty, at call, if it has 9;", () -> {
+        Sentences.holds("Term 2, Promise 9", "4 at ret, if the STACK is empty, at call, if it has 9;", () -> {
             dueSteps("ret;", "", 4, 0);
             dueSteps("call 1;ret;ret;", "", 4, 0, 1, 1);
             // the ninth is put upon it, the tenth is not
@@ -151,7 +156,7 @@ final class RunBoundaries {
             String eight = nine.substring(0, 8 * "call 1;".length());
             dueSteps(eight + "call 10;call 10;if 12;stop;ret;", "y;n;", 1, 0, 1, 2, 3, 4, 5, 6, 7, 8, 10, 12, 9, 10, 11);
         });
-        Sentences.holds("Term 2", "5 if there are 200 STEPS.", () -> {
+        Sentences.holds("Term 2, Promise 9", "5 if there are 200 STEPS.", () -> {
             dueRun("jump 0;", "", STEPS, 200);
             dueRun("jump 0;", "", ENDS, 5);
             due("the last step", 0, told("jump 0;", "").step(0, 0, 199, false));
@@ -162,7 +167,8 @@ final class RunBoundaries {
             dueRun(ROUNDS + "stop;", many("n;", 23), STEPS, 200);
             dueRun(ROUNDS + "stop;", many("n;", 23), ENDS, 5);
         });
-        Sentences.holds("Term 2", "(What of 1 to 4 comes first: 4, 1, 2 at the STEP itself, 3 and then 5 behind it.)", () -> {
+        Sentences.holds("Term 2, Promise 9",
+                "(What of 1 to 4 comes first: 4, 1, 2 at the STEP itself, 3 and then 5 behind it.)", () -> {
             // the 200th STEP is at 9: what ENDS it there, or behind it, is ahead of 5
             String[] last = {"stop;", "ret;", "if 0;", "via;", "plain;", "call 0;", "jump 0;"};
             int[] ends = {1, 4, 2, 2, 3, 5, 5};
@@ -180,7 +186,8 @@ final class RunBoundaries {
     }
 
     private static void traced() {
-        Sentences.holds("Term 2", "A STEP is TRACED, if its ADDRESS is FROM at least, TO at most, and ONLY is 2 or its MODE.", () -> {
+        Sentences.holds("Term 2, Promise 10",
+                "A STEP is TRACED, if its ADDRESS is FROM at least, TO at most, and ONLY is 2 or its MODE.", () -> {
             String code = "plain;mode 1;plain;plain;mode 0;plain;mode 1;stop;";
             dueTraced(code, 1, 1, 1, 1, 1);
             dueTraced(code + "from 1;", 0, 1, 1, 1, 1);
@@ -211,7 +218,7 @@ final class RunBoundaries {
     // Term 5, of a RUN
 
     private static void counts() {
-        Sentences.holds("Term 5", "Of a RUN: VISITS of an ADDRESS: how many STEPS;", () -> {
+        Sentences.holds("Term 5, Promise 19", "Of a RUN: VISITS of an ADDRESS: how many STEPS;", () -> {
             TracePackets x = told("if 0;stop;stop;", many("y;", 60));
             due("of the first", 61, x.visits(0, 0, 0));
             due("of one that is never come to", 0, x.visits(0, 0, 2));
@@ -219,7 +226,9 @@ final class RunBoundaries {
             TracePackets y = told(many("plain;", 40), "");
             due("of the last", 1, y.visits(0, 0, 39));
         });
-        Sentences.holds("Term 5", "HOT: ADDRESSES by VISITS, most first, of several the least first: the k-th of those that were visited;", () -> {
+        Sentences.holds("Term 5, Promise 20",
+                "HOT: ADDRESSES by VISITS, most first, of several the least first: the k-th of those that"
+                + " were visited;", () -> {
             // 0 once, 1 and 2 twice, 3 three times, 4 once, 5 never
             dueHot("jump 3;if 3;if 3;if 1;stop;stop;", "y;n;y;y;n;y;n;", 3, 1, 2, 0, 4);
             dueHot("if 0;stop;", "y;n;", 0, 1);
@@ -231,18 +240,28 @@ final class RunBoundaries {
             }
             dueHot(many("plain;", 40), "", all);
         });
-        Sentences.holds("Term 5", "EDGES: how many unlike couples of ADDRESSES of two STEPS, one behind the other;", () -> {
+        Sentences.holds("Term 5, Promise 9",
+                "EDGES: how many unlike couples of ADDRESSES of two STEPS, one behind the other;", () -> {
             dueRun("", "", EDGES, 0);
             dueRun("stop;", "", EDGES, 0);
             dueRun("jump 0;", "", EDGES, 1);
             dueRun("jump 1;jump 0;", "", EDGES, 2);
             dueRun("if 1;if 0;", "y;y;n;", EDGES, 2);
             dueRun("plain;plain;if 0;stop;", "y;y;n;", EDGES, 4);
+            dueRun("if 2;jump 0;jump 0;", "n;y;", EDGES, 4);
             // where it would have gone is no STEP
             dueRun("plain;", "", EDGES, 0);
+            // those of another RUN are not its own
+            TracePackets x = told("plain;plain;stop;", "");
+            Checks.tell(x, CODE, "jump 0;");
+            for (int round = 0; round < 2; round++) {
+                due("edges of the first", 2, x.run(0, 0, EDGES));
+                due("edges of the second", 1, x.run(1, 0, EDGES));
+            }
             dueRun(many("plain;", 40), "", EDGES, 39);
         });
-        Sentences.holds("Term 5", "LOOPS: STEPS to an ADDRESS that is no greater than that of the STEP ahead;", () -> {
+        Sentences.holds("Term 5, Promise 9",
+                "LOOPS: STEPS to an ADDRESS that is no greater than that of the STEP ahead;", () -> {
             dueRun("", "", LOOPS, 0);
             dueRun("plain;stop;", "", LOOPS, 0);
             dueRun("if 0;stop;", "y;n;", LOOPS, 1);
@@ -250,7 +269,7 @@ final class RunBoundaries {
             dueRun("jump 0;", "", LOOPS, 199);
             dueRun("jump 1;jump 0;", "", LOOPS, 99);
         });
-        Sentences.holds("Term 5", "DEEPEST: the most on the STACK;", () -> {
+        Sentences.holds("Term 5, Promise 9", "DEEPEST: the most on the STACK;", () -> {
             dueRun("stop;", "", DEEPEST, 0);
             dueRun("ret;", "", DEEPEST, 0);
             dueRun("call 1;stop;", "", DEEPEST, 1);
@@ -260,7 +279,7 @@ final class RunBoundaries {
             // the 200th STEP is a call
             dueRun(ROUNDS + "call 0;", TO_THE_LAST, DEEPEST, 1);
         });
-        Sentences.holds("Term 5", "USED: how many CHOICES;", () -> {
+        Sentences.holds("Term 5, Promise 9", "USED: how many CHOICES;", () -> {
             dueRun("stop;", "y;y;", USED, 0);
             dueRun("if 0;stop;", "y;n;y;", USED, 2);
             dueRun("if 0;", many("y;", 60), USED, 60);
@@ -268,13 +287,14 @@ final class RunBoundaries {
             dueRun("via;", "go 39;go 0;", USED, 1);
             dueRun(ROUNDS + "via;", TO_THE_LAST + "go 0;", USED, 24);
         });
-        Sentences.holds("Term 5", "TRACED: how many STEPS;", () -> {
+        Sentences.holds("Term 5, Promise 9", "TRACED: how many STEPS;", () -> {
             dueRun("", "", TRACED, 0);
             dueRun("jump 0;", "", TRACED, 200);
             dueRun("jump 0;from 1;", "", TRACED, 0);
             dueRun("jump 1;jump 0;from 1;", "", TRACED, 100);
         });
-        Sentences.holds("Term 5", "RETURNS: STEPS at a ret that took an ADDRESS off the STACK.", () -> {
+        Sentences.holds("Term 5, Promise 9",
+                "RETURNS: STEPS at a ret that took an ADDRESS off the STACK.", () -> {
             dueRun("ret;", "", RETURNS, 0);
             dueRun("call 1;ret;", "", RETURNS, 1);
             dueRun("call 2;call 2;ret;", "", RETURNS, 2);
@@ -293,8 +313,9 @@ final class RunBoundaries {
     }
 
     private static void openAndApart() {
-        Sentences.holds("Term 5", "OPEN at STEP k: calls by which the RUN went on ahead of it, and that no ret came back from ahead of it,"
-                + " the lowest first: how many; ADDRESS of the i-th (of the call itself).", () -> {
+        Sentences.holds("Term 5, Promise 11",
+                "OPEN at STEP k: calls by which the RUN went on ahead of it, and that no ret came back from"
+                + " ahead of it, the lowest first: how many; ADDRESS of the i-th (of the call itself).", () -> {
             // 0 2 4 6 5 3 1
             TracePackets x = told("call 2;stop;call 4;ret;call 6;ret;ret;", "");
             int[][] open = {{}, {0}, {0, 2}, {0, 2, 4}, {0, 2}, {0}, {}};
@@ -305,6 +326,12 @@ final class RunBoundaries {
                 }
                 due("open at " + k + ", no more", NONE, x.open(0, 0, k, open[k].length));
             }
+            // what is no call and no ret neither opens nor closes one: 0 2 3 4 5 1
+            TracePackets z = told("call 2;stop;plain;jump 4;if 5;ret;", "n;");
+            int[] between = {0, 1, 1, 1, 1, 0};
+            for (int k = 0; k < between.length; k++) {
+                due("open at " + k, between[k], z.open(0, 0, k, NONE));
+            }
             // the tenth call is a STEP, but the RUN does not go on by it
             TracePackets y = told("call 1;call 1;", "");
             due("at the first step", 0, y.open(0, 0, 0, NONE));
@@ -314,8 +341,9 @@ final class RunBoundaries {
             due("no tenth one", NONE, y.open(0, 0, 9, 9));
             due("no step behind", NONE, y.open(0, 0, 10, NONE));
         });
-        Sentences.holds("Term 5", "APART of two DRIVES: the first STEP that is at another ADDRESS by the second than by the first, or that"
-                + " only one of both has (none: none).", () -> {
+        Sentences.holds("Term 5, Promise 12",
+                "APART of two DRIVES: the first STEP that is at another ADDRESS by the second than by the"
+                + " first, or that only one of both has (none: none).", () -> {
             dueApart("if 2;stop;stop;", "y;", "y;", NONE);
             dueApart("if 2;stop;stop;", "y;", "n;", 1);
             dueApart("if 2;stop;stop;", "y;", "", 1);
@@ -342,8 +370,9 @@ final class RunBoundaries {
     // Term 5, of a CODE
 
     private static void blocks() {
-        Sentences.holds("Term 5", "Of a CODE: HEADS: ADDRESS 0, TARGETS, ADDRESSES behind an if, a jump, a call, a ret, a via, a stop, where"
-                + " there are INSTRUCTIONS, rising: how many; the k-th;", () -> {
+        Sentences.holds("Term 5, Promise 13",
+                "Of a CODE: HEADS: ADDRESS 0, TARGETS, ADDRESSES behind an if, a jump, a call, a ret, a via,"
+                + " a stop, where there are INSTRUCTIONS, rising: how many; the k-th;", () -> {
             dueHeads("");
             dueHeads("plain;", 0);
             dueHeads(many("plain;", 40), 0);
@@ -362,8 +391,9 @@ final class RunBoundaries {
             due("all of them", 40, x.head(0, NONE));
             due("the last", 39, x.head(0, 39));
         });
-        Sentences.holds("Term 5", "a BLOCK goes from a HEAD to ahead of the next one: WIDEST: the HEAD of that of most INSTRUCTIONS, of"
-                + " several the least (none: none);", () -> {
+        Sentences.holds("Term 5, Promise 14",
+                "a BLOCK goes from a HEAD to ahead of the next one: WIDEST: the HEAD of that of most"
+                + " INSTRUCTIONS, of several the least (none: none);", () -> {
             dueWidest("", NONE);
             dueWidest("stop;", 0);
             dueWidest("stop;stop;", 0);
@@ -376,8 +406,9 @@ final class RunBoundaries {
             dueWidest("plain;plain;plain;plain;jump 2;", 2);
             dueWidest("plain;plain;plain;jump 2;", 0);
         });
-        Sentences.holds("Term 5", "WARM of a RUN: the HEAD of the BLOCK at whose ADDRESSES most STEPS are, of several the least (no STEPS:"
-                + " none).", () -> {
+        Sentences.holds("Term 5, Promise 14",
+                "WARM of a RUN: the HEAD of the BLOCK at whose ADDRESSES most STEPS are, of several the least"
+                + " (no STEPS: none).", () -> {
             dueWarm("", "", NONE);
             dueWarm("stop;", "", 0);
             dueWarm("if 0;stop;", "n;", 0);
@@ -409,8 +440,9 @@ final class RunBoundaries {
     }
 
     private static void deadEnds() {
-        Sentences.holds("Term 5", "DEAD: INSTRUCTIONS that no way from 0 leads to (via leads anywhere; ret to behind each call that a way"
-                + " leads to), as ADDRESSES, rising: how many; the k-th;", () -> {
+        Sentences.holds("Term 5, Promise 21",
+                "DEAD: INSTRUCTIONS that no way from 0 leads to (via leads anywhere; ret to behind each call"
+                + " that a way leads to), as ADDRESSES, rising: how many; the k-th;", () -> {
             dueDead("");
             dueDead("stop;");
             dueDead("stop;stop;", 1);
@@ -424,6 +456,7 @@ final class RunBoundaries {
             dueDead("call 2;stop;ret;");
             dueDead("ret;stop;call 0;stop;", 1, 2, 3);
             dueDead("call 4;call 4;stop;call 4;ret;", 3);
+            dueDead("if 3;call 6;stop;call 6;stop;stop;ret;", 5);
             dueDead("jump 2;call 3;call 3;ret;stop;", 1, 4);
             // a call as the last INSTRUCTION has nothing behind it
             dueDead("jump 2;ret;call 1;");
@@ -472,8 +505,9 @@ final class RunBoundaries {
     }
 
     private static void answersOfRuns() {
-        Sentences.holds("Promise 9", "Of a RUN, what 0: STEPS, 1: how it ENDS (3, if there is no INSTRUCTION at all), 2: EDGES, 3: LOOPS, 4:"
-                + " DEEPEST, 5: USED, 6: TRACED, 7: RETURNS.", () -> {
+        Sentences.holds("Promise 9",
+                "Of a RUN, what 0: STEPS, 1: how it ENDS (3, if there is no INSTRUCTION at all), 2: EDGES, 3:"
+                + " LOOPS, 4: DEEPEST, 5: USED, 6: TRACED, 7: RETURNS.", () -> {
             TracePackets x = told("", "y;");
             Checks.tell(x, CODE, "call 3;if 0;stop;mode 1;ret;only 0;");
             Checks.tell(x, DRIVE, "y;n;");
@@ -516,7 +550,8 @@ final class RunBoundaries {
             due("at the last", 1, x.open(0, 0, 1, NONE));
             due("the first", 0, x.open(0, 0, 1, 0));
         });
-        Sentences.holds("Promise 11", "NONE: not so many, there is no such STEP, there is none such (of either).", () -> {
+        Sentences.holds("Promise 11",
+                "NONE: not so many, there is no such STEP, there is none such (of either).", () -> {
             dueNoneSuch(NONE, (x, code, drive) -> x.open(code, drive, 0, NONE));
             TracePackets x = told("call 1;stop;", "");
             due("not so many at the first", NONE, x.open(0, 0, 0, 0));
@@ -551,7 +586,8 @@ final class RunBoundaries {
             due("the last", 100, x.visits(0, 0, 39));
             due("never", 0, x.visits(0, 0, 1));
         });
-        Sentences.holds("Promise 19", "NONE: there is no INSTRUCTION, or there is none such (of either).", () -> {
+        Sentences.holds("Promise 19",
+                "NONE: there is no INSTRUCTION, or there is none such (of either).", () -> {
             dueNoneSuch(NONE, (x, code, drive) -> x.visits(code, drive, 0));
             TracePackets x = told("stop;stop;", "");
             for (int address : new int[] {-1, -2, 2, 3, 39, 40, LEAST, GREATEST}) {
@@ -639,8 +675,9 @@ final class RunBoundaries {
     // Promise 24, and what Term 4 says of it
 
     private static void draws() {
-        Sentences.holds("Term 4", "DRAWN by a SEED, x; a number below n is drawn: x becomes x * 1103515245 + 12345 (of 32 bits), it is x"
-                + " shifted right by 16 without sign, remainder by n:", () -> {
+        Sentences.holds("Term 4, Promise 24",
+                "DRAWN by a SEED, x; a number below n is drawn: x becomes x * 1103515245 + 12345 (of 32"
+                + " bits), it is x shifted right by 16 without sign, remainder by n:", () -> {
             // 32 bits wrap around, and the shift is without sign: each x by arithmetic without bounds
             int[] seeds = {0, 1, -1, 2, 12345, LEAST, GREATEST, -1103515245, 65535, 65536};
             for (int seed : seeds) {
@@ -656,8 +693,9 @@ final class RunBoundaries {
                 }
             }
         });
-        Sentences.holds("Term 4", "a CODE is run by CHOICES that are drawn as they are needed, n of them at most (0 .. 60; another one ENDS"
-                + " it as 2):", () -> {
+        Sentences.holds("Term 4, Promise 24",
+                "a CODE is run by CHOICES that are drawn as they are needed, n of them at most (0 .. 60;"
+                + " another one ENDS it as 2):", () -> {
             TracePackets x = new TracePackets();
             Checks.tell(x, CODE, "via;");
             for (int n = 0; n <= 60; n++) {
@@ -670,12 +708,19 @@ final class RunBoundaries {
             due("steps of 0", 2, x.drawn(0, 7, 0, STEPS));
             due("end of 0", 1, x.drawn(0, 7, 0, ENDS));
             due("used of 60", 0, x.drawn(0, 7, 60, USED));
+            // not by those of a DRIVE that ran it
+            Checks.tellAt(x, CODE, 0, "via;");
+            Checks.tell(x, DRIVE, "go 1;");
+            due("run by a drive", 3, x.run(0, 0, ENDS));
+            due("steps of 60", 61, x.drawn(0, 7, 60, STEPS));
+            due("run by the drive again", 1, x.run(0, 0, STEPS));
             // 60 are enough for 200 STEPS
             Checks.tellAt(x, CODE, 0, "plain;plain;plain;plain;if 0;jump 0;");
             due("steps of 60", 200, x.drawn(0, 7, 60, STEPS));
             due("end of 60", 5, x.drawn(0, 7, 60, ENDS));
         });
-        Sentences.holds("Term 4", "at if: a number below 2, 1 yes; at via: an ADDRESS, a number below how many INSTRUCTIONS.", () -> {
+        Sentences.holds("Term 4, Promise 24",
+                "at if: a number below 2, 1 yes; at via: an ADDRESS, a number below how many INSTRUCTIONS.", () -> {
             // seed 1: 1103527590 (shifted 16838), 2524885223 (shifted 38526), 662824084 (shifted 10113)
             TracePackets x = new TracePackets();
             Checks.tell(x, CODE, "if 2;stop;stop;");
@@ -693,8 +738,9 @@ final class RunBoundaries {
             Checks.tellAt(x, CODE, 0, "if 0;via;stop;");
             due("16838 by 2: no; 38526 by 3", 0, x.drawn(0, 1, 2, 10));
         });
-        Sentences.holds("Promise 24", "DRAWN, n CHOICES at most, what as run() (0 to 5), or 10: the ADDRESS of the last STEP (NONE: no"
-                + " STEPS).", () -> {
+        Sentences.holds("Promise 24",
+                "DRAWN, n CHOICES at most, what as run() (0 to 5), or 10: the ADDRESS of the last STEP (NONE:"
+                + " no STEPS).", () -> {
             TracePackets x = new TracePackets();
             Checks.tell(x, CODE, "");
             int[] empty = {0, 3, 0, 0, 0, 0};

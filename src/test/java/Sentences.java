@@ -3,12 +3,16 @@ import java.nio.charset.StandardCharsets;
 import java.nio.file.Files;
 import java.nio.file.Path;
 import java.util.ArrayList;
+import java.util.Arrays;
+import java.util.HashSet;
 import java.util.LinkedHashMap;
 import java.util.List;
 import java.util.Map;
+import java.util.Set;
 
 /**
- * Tests that name the sentence they hold: the part of the document ("Promise 2", "Term 3"), its words, the calls.
+ * Tests that name the sentence they hold: the part of the document where it stands ("Promise 2", or "Term 3" with the
+ * promise by whose call it is seen: "Term 3, Promise 15"), its words, the calls.
  * At the end the words are held against the document: they stand there, and none of its words is left without a test.
  */
 final class Sentences {
@@ -23,12 +27,14 @@ final class Sentences {
     }
 
     private static final List<Named> NAMED = new ArrayList<>();
+    private static final Set<String> PROMISES = new HashSet<>();
 
     private Sentences() { }
 
     /** Runs the test of a sentence; a test that looks at nothing is a failure. */
     static void holds(String part, String words, Runnable test) {
-        NAMED.add(new Named(part, words));
+        NAMED.add(new Named(part.replaceFirst(", .*", ""), words));
+        PROMISES.add(part.replaceFirst(".*, ", ""));
         Checks.topic(part + " '" + words + "': ");
         int before = Checks.made();
         test.run();
@@ -38,6 +44,13 @@ final class Sentences {
 
     static int size() {
         return NAMED.size();
+    }
+
+    /** Each promise has a test that names it. */
+    static void nameAll(int promises) {
+        for (int promise = 1; promise <= promises; promise++) {
+            Checks.due("Promise " + promise + " is named by a test", true, PROMISES.contains("Promise " + promise));
+        }
     }
 
     /** Each sentence stands in its part of the document, and all words of each part stand in some sentence. */
@@ -52,7 +65,7 @@ final class Sentences {
             int at = text.indexOf(named.words);
             Checks.due(named.part + " has no words '" + named.words + "'", true, at >= 0);
             for (; at >= 0; at = text.indexOf(named.words, at + 1)) {
-                java.util.Arrays.fill(told.get(named.part), at, at + named.words.length(), true);
+                Arrays.fill(told.get(named.part), at, at + named.words.length(), true);
             }
         }
         for (Map.Entry<String, String> part : parts.entrySet()) {

@@ -65,7 +65,8 @@ final class TextBoundaries {
     // Term 1
 
     private static void instructionsAndRules() {
-        Sentences.holds("Term 1", "A CODE has INSTRUCTIONS, at most 40, at ADDRESSES from 0 on: 0 plain, 1 if, 2 jump, 3 call"
+        Sentences.holds("Term 1, Promise 6",
+                "A CODE has INSTRUCTIONS, at most 40, at ADDRESSES from 0 on: 0 plain, 1 if, 2 jump, 3 call"
                 + " (of these a TARGET, an ADDRESS), 4 ret, 5 via, 6 stop;", () -> {
             TracePackets x = new TracePackets();
             Checks.tell(x, CODE, "");
@@ -83,7 +84,7 @@ final class TextBoundaries {
             due("none behind it", -2, x.code(0, 140));
             dueFault(CODE, many("via;", 41), 3, 160);
         });
-        Sentences.holds("Term 1", "each of a MODE, 0 or 1;", () -> {
+        Sentences.holds("Term 1, Promise 6", "each of a MODE, 0 or 1;", () -> {
             TracePackets x = new TracePackets();
             Checks.tell(x, CODE, "plain;mode 1;plain;mode 0;plain;");
             for (int a = 0; a < 3; a++) {
@@ -92,17 +93,18 @@ final class TextBoundaries {
             dueFault(CODE, "mode 2;", 2, 5);
             dueFault(CODE, "mode 99;", 2, 5);
         });
-        Sentences.holds("Term 1", "BITS, 1 .. 9 (6 at first),", () -> dueRule("bits", 1, 6, 1, 9));
-        Sentences.holds("Term 1", "DEEP, 0 .. 4 (2),", () -> dueRule("deep", 2, 2, 0, 4));
-        Sentences.holds("Term 1", "PERIOD, 2 .. 99 (20),", () -> dueRule("sync", 3, 20, 2, 99));
-        Sentences.holds("Term 1", "FROM, TO, ADDRESSES (0, 39),", () -> {
+        Sentences.holds("Term 1, Promise 6", "BITS, 1 .. 9 (6 at first),", () -> dueRule("bits", 1, 6, 1, 9));
+        Sentences.holds("Term 1, Promise 6", "DEEP, 0 .. 4 (2),", () -> dueRule("deep", 2, 2, 0, 4));
+        Sentences.holds("Term 1, Promise 6", "PERIOD, 2 .. 99 (20),", () -> dueRule("sync", 3, 20, 2, 99));
+        Sentences.holds("Term 1, Promise 6", "FROM, TO, ADDRESSES (0, 39),", () -> {
             dueRule("from", 4, 0, 0, 39);
             dueRule("to", 5, 39, 0, 39);
         });
-        Sentences.holds("Term 1", "ONLY, 0 .. 2 (2),", () -> dueRule("only", 6, 2, 0, 2));
-        Sentences.holds("Term 1", "ROOM, 3 .. 9 (9),", () -> dueRule("room", 7, 9, 3, 9));
-        Sentences.holds("Term 1", "RATE, 1 .. 9 (1).", () -> dueRule("rate", 8, 1, 1, 9));
-        Sentences.holds("Term 1", "An ADDRESS is two digits of base 8, the high one and the low one.", () -> {
+        Sentences.holds("Term 1, Promise 6", "ONLY, 0 .. 2 (2),", () -> dueRule("only", 6, 2, 0, 2));
+        Sentences.holds("Term 1, Promise 6", "ROOM, 3 .. 9 (9),", () -> dueRule("room", 7, 9, 3, 9));
+        Sentences.holds("Term 1, Promise 6", "RATE, 1 .. 9 (1).", () -> dueRule("rate", 8, 1, 1, 9));
+        Sentences.holds("Term 1, Promise 15",
+                "An ADDRESS is two digits of base 8, the high one and the low one.", () -> {
             // ahead of each boundary of eight and behind it: LAST, the ADDRESS, its digits
             int[][] ways = {{0, 7, 1}, {0, 8, 2}, {7, 0, 1}, {7, 8, 2}, {8, 15, 1}, {15, 16, 2}, {24, 23, 2},
                 {31, 32, 2}, {32, 39, 1}, {39, 32, 1}, {39, 31, 2}, {39, 0, 2}};
@@ -115,7 +117,8 @@ final class TextBoundaries {
     }
 
     private static void choicesPacketsFacts() {
-        Sentences.holds("Term 1", "A DRIVE has CHOICES, at most 60, from 0 on: yes, no, or to an ADDRESS.", () -> {
+        Sentences.holds("Term 1, Promise 7",
+                "A DRIVE has CHOICES, at most 60, from 0 on: yes, no, or to an ADDRESS.", () -> {
             TracePackets x = new TracePackets();
             Checks.tell(x, DRIVE, "");
             due("none", 0, x.choice(0, NONE));
@@ -127,7 +130,7 @@ final class TextBoundaries {
             due("the last", 39, x.choice(0, 59));
             dueFault(DRIVE, many("n;", 61), 3, 120);
         });
-        Sentences.holds("Term 1", "A LOSS has PACKETS (numbers, 0 .. 99), at most 12.", () -> {
+        Sentences.holds("Term 1, Promise 8", "A LOSS has PACKETS (numbers, 0 .. 99), at most 12.", () -> {
             TracePackets x = new TracePackets();
             Checks.tell(x, LOSS, "");
             due("none", 0, x.loss(0, NONE));
@@ -143,7 +146,8 @@ final class TextBoundaries {
             due("the last", 21, x.loss(0, 11));
             dueFault(LOSS, text + "lose 22;", 3, 96);
         });
-        Sentences.holds("Term 1", "A LOG has FACTS, at most 8, from 0 on: an ADDRESS was seen so often, 0 .. 99.", () -> {
+        Sentences.holds("Term 1, Promise 22",
+                "A LOG has FACTS, at most 8, from 0 on: an ADDRESS was seen so often, 0 .. 99.", () -> {
             TracePackets x = new TracePackets();
             Checks.tell(x, LOG, "");
             due("none", 0, x.fact(0, NONE, 0));
@@ -155,7 +159,8 @@ final class TextBoundaries {
             due("the last, how often", 0, x.fact(0, 7, 1));
             dueFault(LOG, many("saw 5 5;", 9), 3, 64);
         });
-        Sentences.holds("Term 1", "CODES, at most 2 (sort 0), DRIVES, at most 2 (1), LOSSES, at most 2 (2), LOGS, at most 2"
+        Sentences.holds("Term 1, Promise 25",
+                "CODES, at most 2 (sort 0), DRIVES, at most 2 (1), LOSSES, at most 2 (2), LOGS, at most 2"
                 + " (3), from 0 on.", () -> {
             TracePackets x = new TracePackets();
             String[] texts = {"stop;", "y;", "lose 1;", "saw 1 1;"};
@@ -173,7 +178,7 @@ final class TextBoundaries {
     }
 
     private static void tokensAndTexts() {
-        Sentences.holds("Term 1", "THE TAPE has at most 600 bytes.", () -> {
+        Sentences.holds("Term 1, Promise 2", "THE TAPE has at most 600 bytes.", () -> {
             TracePackets x = new TracePackets();
             // the last of 600 bytes is read, too
             String text = many("y;", 59) + many(" ", 600 - 120) + "n;";
@@ -183,8 +188,9 @@ final class TextBoundaries {
             dueFault(DRIVE, many(" ", 599) + "!", 1, 599);
             dueFault(DRIVE, many(" ", 599) + "y", 1, 600);
         });
-        Sentences.holds("Term 1", "TOKENS, as long as they go, blanks (10, 32) between: words, rows of letters a .. z; NUMBERS, 1"
-                + " or 2 digits; ; one byte.", () -> {
+        Sentences.holds("Term 1, Promise 5",
+                "TOKENS, as long as they go, blanks (10, 32) between: words, rows of letters a .. z; NUMBERS,"
+                + " 1 or 2 digits; ; one byte.", () -> {
             dueTaken(CODE, "\n \nif\n\n0 \n;stop;\n");
             dueTaken(CODE, "if0;stop;");
             dueTaken(DRIVE, "go7;go07;go 00;go 39;");
@@ -203,9 +209,11 @@ final class TextBoundaries {
                         blank ? NONE : sign >= 'a' && sign <= 'z' ? 0 : sign == ';' ? 2 : 1);
             }
         });
-        Sentences.holds("Term 1", "A CODE's text: {('plain' | 'ret' | 'via' | 'stop' | ('if' | 'jump' | 'call' | 'mode' | 'bits' |"
-                + " 'deep' | 'sync' | 'from' | 'to' | 'only' | 'room' | 'rate') NUMBER) ';'} (if, jump, call: the TARGET,"
-                + " 0 .. 39; mode: MODE of all INSTRUCTIONS told behind it, 0 at first; sync: the PERIOD).", () -> {
+        Sentences.holds("Term 1, Promise 4",
+                "A CODE's text: {('plain' | 'ret' | 'via' | 'stop' | ('if' | 'jump' | 'call' | 'mode' |"
+                + " 'bits' | 'deep' | 'sync' | 'from' | 'to' | 'only' | 'room' | 'rate') NUMBER) ';'} (if,"
+                + " jump, call: the TARGET, 0 .. 39; mode: MODE of all INSTRUCTIONS told behind it, 0 at first;"
+                + " sync: the PERIOD).", () -> {
             dueTaken(CODE, "");
             dueTaken(CODE, " ");
             for (String word : new String[] {"plain", "ret", "via", "stop"}) {
@@ -234,7 +242,7 @@ final class TextBoundaries {
                 dueFault(CODE, word + " 40;" + many("via;", 39), 2, word.length() + 1);
             }
             TracePackets x = new TracePackets();
-            Checks.tell(x, CODE, "stop;mode 1;mode 0;mode 1;stop;stop;mode 1;mode 0;");
+            Checks.tell(x, CODE, "stop;mode 1;mode 0;mode 1;stop;stop;mode 0;mode 1;");
             int[] modes = {0, 1, 1};
             for (int a = 0; a < 3; a++) {
                 due("mode at " + a, modes[a], x.code(0, 300 + a));
@@ -242,7 +250,8 @@ final class TextBoundaries {
             Checks.tellAt(x, CODE, 0, "stop;");
             due("mode 0 at first in the next text, too", 0, x.code(0, 300));
         });
-        Sentences.holds("Term 1", "A DRIVE's text: {('y' | 'n' | 'go' NUMBER) ';'} (an ADDRESS, 0 .. 39).", () -> {
+        Sentences.holds("Term 1, Promise 4",
+                "A DRIVE's text: {('y' | 'n' | 'go' NUMBER) ';'} (an ADDRESS, 0 .. 39).", () -> {
             dueTaken(DRIVE, "");
             dueTaken(DRIVE, "y;n;go 0;go 39;");
             dueFault(DRIVE, "go 40;", 2, 3);
@@ -253,7 +262,7 @@ final class TextBoundaries {
             dueFault(DRIVE, "n", 1, 1);
             dueFault(DRIVE, "o 1;", 1, 0);
         });
-        Sentences.holds("Term 1", "A LOSS's text: {'lose' NUMBER ';'}.", () -> {
+        Sentences.holds("Term 1, Promise 4", "A LOSS's text: {'lose' NUMBER ';'}.", () -> {
             dueTaken(LOSS, "");
             dueTaken(LOSS, "lose 0;lose 99;");
             dueFault(LOSS, "lose 100;", 1, 5);
@@ -262,7 +271,8 @@ final class TextBoundaries {
             dueFault(LOSS, "los 1;", 1, 0);
             dueFault(LOSS, "loser 1;", 1, 0);
         });
-        Sentences.holds("Term 1", "A LOG's text: {'saw' NUMBER NUMBER ';'} (an ADDRESS, 0 .. 39, how often).", () -> {
+        Sentences.holds("Term 1, Promise 4",
+                "A LOG's text: {'saw' NUMBER NUMBER ';'} (an ADDRESS, 0 .. 39, how often).", () -> {
             dueTaken(LOG, "");
             dueTaken(LOG, "saw 0 0;saw 39 99;");
             dueFault(LOG, "saw 40 0;", 2, 4);
@@ -273,7 +283,8 @@ final class TextBoundaries {
             dueFault(LOG, "saw 0 0 0;", 1, 8);
             dueFault(LOG, "saw 0 0", 1, 7);
         });
-        Sentences.holds("Term 1", "Later ones strike (bits, deep, sync, from, to, only, room, rate), but all others, which are"
+        Sentences.holds("Term 1, Promise 4",
+                "Later ones strike (bits, deep, sync, from, to, only, room, rate), but all others, which are"
                 + " further ones (lose of one PACKET twice is one).", () -> {
             TracePackets x = new TracePackets();
             Checks.tell(x, CODE, "bits 9;deep 4;sync 99;from 39;to 0;only 0;room 3;rate 9;plain;plain;"
@@ -293,7 +304,8 @@ final class TextBoundaries {
     }
 
     private static void faults() {
-        Sentences.holds("Term 1", "FAULTS of all, with places (a token's first byte; the end's): 1 the first byte or token with"
+        Sentences.holds("Term 1, Promise 5",
+                "FAULTS of all, with places (a token's first byte; the end's): 1 the first byte or token with"
                 + " which no text goes on (a longer row of digits is no token).", () -> {
             dueFault(CODE, "!", 1, 0);
             dueFault(CODE, "  stop;  plan;", 1, 9);
@@ -309,8 +321,9 @@ final class TextBoundaries {
             dueFault(CODE, "stop;stop!!", 1, 9);
             dueFault(CODE, "if if if", 1, 3);
         });
-        Sentences.holds("Term 1", "If there is none, the first by place, of one place the least: 2 a NUMBER that can't be (as above;"
-                + " a line with such a NUMBER tells its INSTRUCTION, CHOICE, FACT all the same);", () -> {
+        Sentences.holds("Term 1, Promise 5",
+                "If there is none, the first by place, of one place the least: 2 a NUMBER that can't be (as"
+                + " above; a line with such a NUMBER tells its INSTRUCTION, CHOICE, FACT all the same);", () -> {
             dueFault(CODE, "bits 0;bits 10;", 2, 5);
             dueFault(CODE, "bits 9;bits 10;", 2, 12);
             dueFault(CODE, "bits 10;" + many("via;", 41), 2, 5);
@@ -327,7 +340,8 @@ final class TextBoundaries {
             // a TARGET that can't be is no FAULT 4
             dueFault(CODE, "if 39;if 40;", 2, 9);
         });
-        Sentences.holds("Term 1", "3 a 41st INSTRUCTION, a 61st CHOICE, a 13th lose, a 9th FACT, at its first token.", () -> {
+        Sentences.holds("Term 1, Promise 5",
+                "3 a 41st INSTRUCTION, a 61st CHOICE, a 13th lose, a 9th FACT, at its first token.", () -> {
             String[] words = {"plain;", "if 0;", "jump 0;", "call 0;", "ret;", "via;", "stop;"};
             for (String word : words) {
                 dueTaken(CODE, many("via;", 39) + word);
@@ -345,8 +359,9 @@ final class TextBoundaries {
             dueFault(LOG, many("saw 0 0;", 8) + " saw 1 1;", 3, 65);
             dueFault(LOG, many("saw 0 0;", 10), 3, 64);
         });
-        Sentences.holds("Term 1", "If there is none of these, at the end's place, of a CODE: 4 a TARGET that is no ADDRESS of an"
-                + " INSTRUCTION.", () -> {
+        Sentences.holds("Term 1, Promise 5",
+                "If there is none of these, at the end's place, of a CODE: 4 a TARGET that is no ADDRESS of"
+                + " an INSTRUCTION.", () -> {
             for (String word : new String[] {"if", "jump", "call"}) {
                 int line = word.length() + 3;
                 dueFault(CODE, word + " 1;", 4, line);
@@ -389,7 +404,8 @@ final class TextBoundaries {
             due("another's codes", 0, y.count(CODE));
             Checks.due("another's image", false, y.again(0));
         });
-        Sentences.holds("Promise 2", "The tape: twenty bytes come behind it, of each number the highest first: how many it has.", () -> {
+        Sentences.holds("Promise 2",
+                "The tape: twenty bytes come behind it, of each number the highest first: how many it has.", () -> {
             TracePackets x = new TracePackets();
             due("onto an empty tape", 20, x.feed(0x793b6e3b, 0x676f2033, 0x393b793b, 0x0a0a0a0a, 0x6e3b676f));
             due("behind it", 40, x.feed(0x20300a3b, BLANKS, BLANKS, BLANKS, 0x2020793b));
@@ -456,8 +472,9 @@ final class TextBoundaries {
             due("it is as it was", 2, x.choice(0, NONE));
             due("1 of a tape that was taken", NONE, x.end(1));
         });
-        Sentences.holds("Promise 4", "The tape is taken (and is empty then) as a text of a sort, a further one (at NONE), or in the"
-                + " place of one: its number.", () -> {
+        Sentences.holds("Promise 4",
+                "The tape is taken (and is empty then) as a text of a sort, a further one (at NONE), or in"
+                + " the place of one: its number.", () -> {
             String[] texts = {"stop;", "y;", "lose 1;", "saw 1 1;"};
             for (int sort = 0; sort < 4; sort++) {
                 TracePackets x = new TracePackets();
@@ -492,8 +509,9 @@ final class TextBoundaries {
                 due("its instructions are as they were", 0, y.code(0, 100));
             }
         });
-        Sentences.holds("Promise 4", "-2: there is none such, there are as many as may be, or no such sort (the tape is empty then,"
-                + " too; no text is read, FAULT 0).", () -> {
+        Sentences.holds("Promise 4",
+                "-2: there is none such, there are as many as may be, or no such sort (the tape is empty"
+                + " then, too; no text is read, FAULT 0).", () -> {
             for (int sort = 0; sort < 4; sort++) {
                 TracePackets x = new TracePackets();
                 for (int at : new int[] {0, 1, 2, -2, LEAST, GREATEST}) {
@@ -514,7 +532,8 @@ final class TextBoundaries {
                 dueRefused(y, sort, 0);
             }
         });
-        Sentences.holds("Promise 5", "Of the latest text(), what 0: the FAULT, 0 without, 1: its place, NONE without.", () -> {
+        Sentences.holds("Promise 5",
+                "Of the latest text(), what 0: the FAULT, 0 without, 1: its place, NONE without.", () -> {
             TracePackets x = new TracePackets();
             dueLatest(x, 0, NONE);
             Checks.tell(x, CODE, "!");
@@ -595,8 +614,10 @@ final class TextBoundaries {
     // Promises 6 to 8, 22
 
     private static void answersOfTexts() {
-        Sentences.holds("Promise 6", "Of a CODE, what 0: INSTRUCTIONS, 1: BITS, 2: DEEP, 3: PERIOD, 4: FROM, 5: TO, 6: ONLY, 7: ROOM,"
-                + " 8: RATE, 100 + a, 200 + a, 300 + a: of an INSTRUCTION which, the TARGET (NONE without), the MODE.", () -> {
+        Sentences.holds("Promise 6",
+                "Of a CODE, what 0: INSTRUCTIONS, 1: BITS, 2: DEEP, 3: PERIOD, 4: FROM, 5: TO, 6: ONLY, 7:"
+                + " ROOM, 8: RATE, 100 + a, 200 + a, 300 + a: of an INSTRUCTION which, the TARGET (NONE"
+                + " without), the MODE.", () -> {
             TracePackets x = new TracePackets();
             Checks.tell(x, CODE, "");
             Checks.tell(x, CODE, "bits 8;deep 3;sync 98;from 1;to 38;only 1;room 4;rate 7;mode 1;call 39;" + many("via;", 38)
@@ -634,7 +655,8 @@ final class TextBoundaries {
                 due("another what " + what, -2, x.code(1, what));
             }
         });
-        Sentences.holds("Promise 7", "How many CHOICES (k NONE), or the k-th: its ADDRESS, 100: no, 101: yes.", () -> {
+        Sentences.holds("Promise 7",
+                "How many CHOICES (k NONE), or the k-th: its ADDRESS, 100: no, 101: yes.", () -> {
             TracePackets x = new TracePackets();
             Checks.tell(x, DRIVE, "");
             Checks.tell(x, DRIVE, "go 0;n;y;" + many("n;", 56) + "go 39;");
@@ -686,7 +708,8 @@ final class TextBoundaries {
                 due("loss " + loss, -2, x.loss(loss, 0));
             }
         });
-        Sentences.holds("Promise 22", "How many FACTS (k NONE, what 0); of FACT k, what 0: the ADDRESS, 1: how often.", () -> {
+        Sentences.holds("Promise 22",
+                "How many FACTS (k NONE, what 0); of FACT k, what 0: the ADDRESS, 1: how often.", () -> {
             TracePackets x = new TracePackets();
             Checks.tell(x, LOG, "");
             Checks.tell(x, LOG, "saw 39 0;" + many("saw 1 2;", 6) + "saw 0 99;");
@@ -723,8 +746,9 @@ final class TextBoundaries {
     // Promises 26, 27
 
     private static void images() {
-        Sentences.holds("Promise 26", "Image k (0 .. 2) is all that is told (the tape, the FAULT, too), as it is now: true; false for"
-                + " another k.", () -> {
+        Sentences.holds("Promise 26",
+                "Image k (0 .. 2) is all that is told (the tape, the FAULT, too), as it is now: true; false"
+                + " for another k.", () -> {
             TracePackets x = new TracePackets();
             for (int k : new int[] {-1, -2, 3, 4, LEAST, GREATEST}) {
                 Checks.due("image(" + k + ")", false, x.image(k));
@@ -751,7 +775,8 @@ final class TextBoundaries {
             due("what the later one has", 1, x.count(CODE));
             due("what the later one has", 0, x.count(DRIVE));
         });
-        Sentences.holds("Promise 27", "All that is as image k has it: true; false if there is none such.", () -> {
+        Sentences.holds("Promise 27",
+                "All that is as image k has it: true; false if there is none such.", () -> {
             TracePackets x = new TracePackets();
             fill(x);
             for (int k : new int[] {0, 1, 2, -1, -2, 3, LEAST, GREATEST}) {
