@@ -7,6 +7,7 @@ public final class BoundaryTest {
     private BoundaryTest() { }
 
     public static void main(String[] args) throws IOException {
+        WholeBoundaries.all();
         TextBoundaries.all();
         RunBoundaries.all();
         PacketBoundaries.all();

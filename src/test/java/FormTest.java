@@ -33,6 +33,7 @@ public final class FormTest {
 
     public static void main(String[] args) throws ReflectiveOperationException, IOException {
         face();
+        faceOfDocument(Path.of(System.getProperty("document", "../shared/DOC.md")));
         classes();
         words(Path.of(System.getProperty("source", "src/main/java/TracePackets.java")));
         neverThrows();
@@ -75,6 +76,26 @@ public final class FormTest {
         Constructor<?>[] constructors = face.getDeclaredConstructors();
         dueTrue("one constructor", constructors.length == 1 && constructors[0].getParameterCount() == 0
                 && Modifier.isPublic(constructors[0].getModifiers()));
+    }
+
+    /** The face that is looked for is that of the document. */
+    private static void faceOfDocument(Path document) throws IOException {
+        if (!Files.exists(document)) {
+            System.out.println("FormTest: " + document + " is not there, its face was not looked at");
+            return;
+        }
+        String text = Files.readString(document);
+        String block = text.substring(text.indexOf("public final class TracePackets {"), text.indexOf("## Terms"));
+        Set<String> told = new TreeSet<>();
+        Matcher method = Pattern.compile("public (int|boolean) (\\w+)\\(([^)]*)\\);").matcher(block);
+        while (method.find()) {
+            told.add(method.group(1) + " " + method.group(2) + "(" + method.group(3).replaceAll(" \\w+(, )?", ",")
+                    .replaceFirst(",$", "") + ")");
+        }
+        dueTrue("the document's face is " + told, FACE.equals(told));
+        dueTrue("the document's constructor", block.contains("public TracePackets();"));
+        dueTrue("the document's constant", block.contains("public static final int NONE = -1;"));
+        dueTrue("no more than these", Pattern.compile("public ").matcher(block).results().count() == FACE.size() + 3);
     }
 
     private static void classes() {

@@ -45,7 +45,7 @@ final class RebuildBoundaries {
     }
 
     /** What is REBUILT as a text: the ADDRESSES of each PIECE, with | between PIECES ('-' for one of no STEPS). */
-    private static String rebuiltOf(TracePackets x, int loss) {
+    static String rebuiltOf(TracePackets x, int loss) {
         StringBuilder text = new StringBuilder();
         int k = 0;
         for (int p = 0; p < x.rebuilt(0, 0, loss, 1); p++) {

@@ -11,8 +11,8 @@ import java.util.Map;
 import java.util.Set;
 
 /**
- * Tests that name the sentence they hold: the part of the document where it stands ("Promise 2", or "Term 3" with the
- * promise by whose call it is seen: "Term 3, Promise 15"), its words, the calls.
+ * Tests that name the sentence they hold: the part of the document where it stands ("Promise 2"; or "What it is" or
+ * "Term 3" with the promise by whose call it is seen: "Term 3, Promise 15"), its words, the calls.
  * At the end the words are held against the document: they stand there, and none of its words is left without a test.
  */
 final class Sentences {
@@ -88,7 +88,7 @@ final class Sentences {
         return rest.toString();
     }
 
-    /** The text of each promise (behind its signature) and of each term, with one blank between words. */
+    /** The text of the first lines, of each term and of each promise (behind its signature), one blank between words. */
     private static Map<String, String> partsOf(String document) {
         Map<String, StringBuilder> parts = new LinkedHashMap<>();
         String part = null;
@@ -96,7 +96,8 @@ final class Sentences {
         for (String line : document.split("\n")) {
             if (line.startsWith("## ")) {
                 terms = line.equals("## Terms");
-                part = line.startsWith("## Promise ") ? line.substring(3, line.indexOf(':')) : null;
+                boolean first = line.equals("## What it is");
+                part = line.startsWith("## Promise ") ? line.substring(3, line.indexOf(':')) : first ? "What it is" : null;
             } else if (terms && line.matches("[1-9]\\. .*")) {
                 part = "Term " + line.charAt(0);
                 line = line.substring(3);
