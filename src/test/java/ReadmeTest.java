@@ -48,7 +48,7 @@ public final class ReadmeTest {
         for (int i = 0; i < got.length; i++) {
             Checks.due(lines.get(i), wanted.get(i), got[i]);
         }
-        for (String test : List.of("Promise", "Boundary", "Model", "Form", "Source", "Readme")) {
+        for (String test : List.of("Promise", "Boundary", "Model", "Order", "Form", "Source", "Readme")) {
             Checks.due("the page names " + test + "Test", true, page.contains(test + "Test.java"));
         }
         Checks.close("ReadmeTest");

@@ -119,6 +119,9 @@ final class RebuildBoundaries {
             dueRebuilt("plain;if 3;plain;plain;stop;", "y;", null, "0 1 3 4");
             dueRebuilt("plain;if 3;plain;plain;stop;", "n;", null, "0 1 2 3 4");
             dueRebuilt("call 2;stop;plain;ret;", "", "lose 2;", "0 2 3");
+            // nothing but a call puts an ADDRESS upon the SHADOW
+            dueRebuilt("call 2;stop;jump 3;ret;", "", null, "0 2 3 1");
+            dueRebuilt("call 2;stop;if 4;stop;jump 5;ret;", "y;", null, "0 2 4 5 1");
             dueRebuilt("call 3;call 3;stop;ret;", "", null, "0 3 1 3 2");
             dueRebuilt("call 3;call 3;stop;ret;", "", "lose 2;", "0 3 1 3");
             // nine bits, and one

@@ -448,6 +448,8 @@ final class RunBoundaries {
             dueDead("stop;stop;", 1);
             dueDead(many("plain;", 40));
             dueDead("if 2;stop;stop;stop;", 3);
+            dueDead("if 0;stop;stop;", 2);
+            dueDead("plain;if 0;stop;stop;", 3);
             dueDead("jump 0;stop;", 1);
             dueDead("via;" + many("stop;", 39));
             dueDead("stop;via;stop;", 1, 2);
